@@ -500,7 +500,11 @@ public final class ExactForms {
             if (n > WIDEST) {
                 throw new UnsupportedOperationException("a number beyond all bounds");
             }
-            limbs = Arrays.copyOf(limbs, Math.min(WIDEST, Math.max(n, 2 * limbs.length)));
+            int[] wider = new int[n > WIDEST / 2 ? WIDEST : 2 * n];
+            for (int i = 0; i < limbs.length; i++) {
+                wider[i] = limbs[i];
+            }
+            limbs = wider;
         }
 
         void putZero() {

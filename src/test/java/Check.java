@@ -1,0 +1,319 @@
+import java.math.BigInteger;
+
+/** Counts and prints what is not as due, and fills and reads registers. */
+final class Check {
+    static final int NONE = 0;
+    static final int INDEX = 1;
+    static final int ARGUMENT = 2;
+    static final int UNSUPPORTED = 3;
+
+    private static final String[] NAMES = {"nothing", "IndexOutOfBoundsException", "IllegalArgumentException",
+        "UnsupportedOperationException", "something else"};
+    private static final int CHUNK = 60;
+
+    private int wrong;
+    private int done;
+
+    interface Call {
+        void run();
+    }
+
+    void due(String what, Object got, Object want) {
+        done++;
+        if (!got.equals(want)) {
+            wrong++;
+            if (wrong < 50) {
+                System.out.println(what + ": " + got + ", due is " + want);
+            }
+        }
+    }
+
+    void holds(String what, boolean well) {
+        due(what, well, true);
+    }
+
+    /** Which exception a call throws; of a subclass, as the machine throws, it is something else. */
+    static int thrown(Call call) {
+        try {
+            call.run();
+        } catch (RuntimeException e) {
+            Class<?> kind = e.getClass();
+            if (kind == IndexOutOfBoundsException.class) {
+                return INDEX;
+            }
+            if (kind == IllegalArgumentException.class) {
+                return ARGUMENT;
+            }
+            if (kind == UnsupportedOperationException.class) {
+                return UNSUPPORTED;
+            }
+            e.printStackTrace(System.out);
+            return 4;
+        }
+        return NONE;
+    }
+
+    /** The call throws this, and all registers are as they were. */
+    void refused(String what, ExactForms forms, int want, Call call) {
+        refused(what, forms, want, 8, call);
+    }
+
+    /** The same, where only the first registers are to stay. */
+    void refused(String what, ExactForms forms, int want, int registers, Call call) {
+        Ratio[][][] before = new Ratio[registers][][];
+        for (int r = 0; r < registers; r++) {
+            before[r] = read(forms, r);
+        }
+        due(what + " throws", NAMES[thrown(call)], NAMES[want]);
+        unchanged(what, forms, before);
+    }
+
+    void unchanged(String what, ExactForms forms, Ratio[][][] before) {
+        for (int r = 0; r < before.length; r++) {
+            holds(what + " leaves register " + r, Model.same(read(forms, r), before[r]));
+        }
+    }
+
+    void register(String what, ExactForms forms, int r, Ratio[][] want) {
+        Ratio[][] got = read(forms, r);
+        due(what, text(got), text(want));
+    }
+
+    /** A matrix written as its rows, ';' between them, the cells like 3 or -1/2. */
+    void register(String what, ExactForms forms, int r, String want) {
+        due(what, text(read(forms, r)), text(parse(want)));
+    }
+
+    static Ratio[][] parse(String text) {
+        String[] rows = text.split(";");
+        Ratio[][] m = new Ratio[rows.length][];
+        for (int i = 0; i < rows.length; i++) {
+            String[] cells = rows[i].trim().split(" +");
+            m[i] = new Ratio[cells.length];
+            for (int j = 0; j < cells.length; j++) {
+                String[] parts = cells[j].split("/");
+                m[i][j] = new Ratio(new BigInteger(parts[0]),
+                    parts.length > 1 ? new BigInteger(parts[1]) : BigInteger.ONE);
+            }
+        }
+        return m;
+    }
+
+    static String text(Ratio[][] m) {
+        StringBuilder s = new StringBuilder();
+        for (Ratio[] row : m) {
+            s.append('[');
+            for (Ratio c : row) {
+                s.append(' ').append(c);
+            }
+            s.append(" ]");
+        }
+        return s.toString();
+    }
+
+    static Ratio[][] read(ExactForms forms, int r) {
+        Ratio[][] m = Model.zero(forms.size(r, false), forms.size(r, true));
+        for (int i = 0; i < m.length; i++) {
+            for (int j = 0; j < m[0].length; j++) {
+                m[i][j] = cell(forms, r, i, j);
+            }
+        }
+        return m;
+    }
+
+    /** A cell as it is shown; it must be shown in least terms. */
+    static Ratio cell(ExactForms forms, int r, int row, int column) {
+        BigInteger upper = size(forms, r, row, column, false);
+        BigInteger lower = size(forms, r, row, column, true);
+        int sign = forms.sign(r, row, column);
+        Ratio cell = new Ratio(sign < 0 ? upper.negate() : upper, lower);
+        if (!cell.upper.abs().equals(upper) || !cell.lower.equals(lower) || cell.upper.signum() != sign) {
+            throw new IllegalStateException("not in least terms, or of a wrong sign");
+        }
+        return cell;
+    }
+
+    private static BigInteger size(ExactForms forms, int r, int row, int column, boolean lower) {
+        int bits = forms.length(r, row, column, lower);
+        BigInteger size = BigInteger.ZERO;
+        for (int k = (bits + 31) / 32; k >= 0; k--) {
+            long limb = forms.limb(r, row, column, lower, k) & 0xFFFFFFFFL;
+            size = size.shiftLeft(32).or(BigInteger.valueOf(limb));
+        }
+        if (size.bitLength() != bits) {
+            throw new IllegalStateException("length and limbs do not fit together");
+        }
+        return size;
+    }
+
+    static void put(ExactForms forms, int r, String text) {
+        put(forms, r, parse(text));
+    }
+
+    /** Cells that fit are set; others are put together from chunks, with registers 6 and 7 as helpers. */
+    static void put(ExactForms forms, int r, Ratio[][] m) {
+        int chunks = 1;
+        for (Ratio[] row : m) {
+            for (Ratio c : row) {
+                if (c.upper.bitLength() > 63 || c.lower.bitLength() > 63) {
+                    BigInteger common = Model.commonOf(m);
+                    int bits = Math.max(common.bitLength(), scaled(m, common));
+                    chunks = Math.max(chunks, (bits + CHUNK - 1) / CHUNK);
+                }
+            }
+        }
+        if (chunks > 1) {
+            putLong(forms, r, m, chunks);
+            return;
+        }
+        forms.make(r, m.length, m[0].length);
+        for (int i = 0; i < m.length; i++) {
+            for (int j = 0; j < m[0].length; j++) {
+                if (!m[i][j].isZero()) {
+                    forms.set(r, i, j, m[i][j].upper.longValueExact(), m[i][j].lower.longValueExact());
+                }
+            }
+        }
+    }
+
+    private static int scaled(Ratio[][] m, BigInteger common) {
+        int bits = 0;
+        for (Ratio[] row : m) {
+            for (Ratio c : row) {
+                bits = Math.max(bits, c.upper.abs().multiply(common).divide(c.lower).bitLength());
+            }
+        }
+        return bits;
+    }
+
+    private static void putLong(ExactForms forms, int r, Ratio[][] m, int chunks) {
+        BigInteger common = Model.commonOf(m);
+        int n = m.length;
+        forms.make(r, n, m[0].length);
+        for (int k = chunks - 1; k >= 0; k--) {
+            scaleUnit(forms, n, 1L << CHUNK);
+            forms.multiply(r, 7, r);
+            forms.make(6, n, m[0].length);
+            for (int i = 0; i < n; i++) {
+                for (int j = 0; j < m[0].length; j++) {
+                    BigInteger whole = m[i][j].upper.abs().multiply(common).divide(m[i][j].lower);
+                    long chunk = whole.shiftRight(CHUNK * k).longValue() & (1L << CHUNK) - 1;
+                    if (chunk != 0) {
+                        forms.set(6, i, j, m[i][j].upper.signum() < 0 ? -chunk : chunk, 1);
+                    }
+                }
+            }
+            forms.add(r, r, 6, false);
+        }
+        if (!common.equals(BigInteger.ONE)) {
+            putSize(forms, 5, common, (common.bitLength() + CHUNK - 1) / CHUNK);
+            forms.invert(5, 5);
+            spread(forms, n);
+            forms.multiply(r, 7, r);
+        }
+    }
+
+    private static void putSize(ExactForms forms, int r, BigInteger value, int chunks) {
+        forms.make(r, 1, 1);
+        for (int k = chunks - 1; k >= 0; k--) {
+            scaleUnit(forms, 1, 1L << CHUNK);
+            forms.multiply(r, 7, r);
+            forms.make(6, 1, 1);
+            forms.set(6, 0, 0, value.shiftRight(CHUNK * k).longValue() & (1L << CHUNK) - 1, 1);
+            forms.add(r, r, 6, false);
+        }
+    }
+
+    private static void scaleUnit(ExactForms forms, int n, long factor) {
+        forms.make(7, n, n);
+        for (int i = 0; i < n; i++) {
+            forms.set(7, i, i, factor, 1);
+        }
+    }
+
+    /** Register 7 becomes the unit matrix times the one cell of register 5. */
+    private static void spread(ExactForms forms, int n) {
+        forms.unit(7, n);
+        forms.make(6, 1, n);
+        for (int i = 0; i < n; i++) {
+            forms.make(6, n, 1);
+            forms.set(6, i, 0, 1, 1);
+            forms.multiply(6, 6, 5);
+            if (i == 0) {
+                forms.part(7, 6, 0, n - 1, 0, 0);
+            } else {
+                forms.beside(7, 7, 6);
+            }
+        }
+    }
+
+    boolean isWell() {
+        return wrong == 0;
+    }
+
+    /** Register r becomes the one cell (u / l) to the power e; register 7 is a helper. */
+    static void power(ExactForms forms, int r, long u, long l, int e) {
+        forms.unit(r, 1);
+        forms.make(7, 1, 1);
+        forms.set(7, 0, 0, u, l);
+        for (int bit = 12; bit >= 0; bit--) {
+            forms.multiply(r, r, r);
+            if ((e >> bit & 1) == 1) {
+                forms.multiply(r, r, 7);
+            }
+        }
+    }
+
+    /** Register r becomes rows and columns of 0 with the one cell of register from at a place. */
+    static void place(ExactForms forms, int r, int[] shape, int row, int column, int from) {
+        forms.make(6, shape[0], 1);
+        forms.set(6, row, 0, 1, 1);
+        forms.multiply(6, 6, from);
+        forms.make(7, 1, shape[1]);
+        forms.set(7, 0, column, 1, 1);
+        forms.multiply(r, 6, 7);
+    }
+
+    /** Register r becomes rows and columns all of the one cell of register from. */
+    static void fill(ExactForms forms, int r, int rows, int columns, int from) {
+        forms.make(6, rows, 1);
+        forms.make(7, 1, columns);
+        for (int i = 0; i < rows; i++) {
+            forms.set(6, i, 0, 1, 1);
+        }
+        for (int j = 0; j < columns; j++) {
+            forms.set(7, 0, j, 1, 1);
+        }
+        forms.multiply(6, 6, from);
+        forms.multiply(r, 6, 7);
+    }
+
+    /**
+     * Register 0 becomes 16 rows and 11 columns with 20000 limbs together: 159 cells of 125, one of 124,
+     * COMMON of 1, the last column of 0. Register 1 is left with 2^3999, all others as helpers.
+     */
+    static void full(ExactForms forms) {
+        power(forms, 1, 2, 1, 3999);
+        power(forms, 2, 2, 1, 3967);
+        fill(forms, 0, 16, 9, 1);
+        fill(forms, 3, 16, 1, 1);
+        place(forms, 4, new int[] {16, 1}, 5, 0, 1);
+        forms.add(3, 3, 4, true);
+        place(forms, 4, new int[] {16, 1}, 5, 0, 2);
+        forms.add(3, 3, 4, false);
+        forms.beside(0, 0, 3);
+        forms.make(4, 16, 1);
+        forms.beside(0, 0, 4);
+    }
+
+    static String name(int kind) {
+        return NAMES[kind];
+    }
+
+    void end(String test) {
+        System.out.println(test + ": " + done + " checks, " + wrong + " wrong");
+        if (wrong > 0) {
+            System.exit(1);
+        }
+    }
+}

@@ -59,8 +59,11 @@ public final class ExactForms {
             throw new IllegalArgumentException("the lower part is 0");
         }
         draft.copy(matrix);
-        draft.at(row, column).putZero();
-        reduceDraft();
+        if (draft.at(row, column).count > 0) {
+            // COMMON of the other cells may be less: what was here counts no more.
+            draft.at(row, column).putZero();
+            reduceDraft();
+        }
         fraction.upper.putLong(u);
         fraction.lower.putLong(l);
         fraction.reduce();
@@ -832,7 +835,7 @@ public final class ExactForms {
 
         /** In the end the greatest common divisor. */
         Whole x = new Whole();
-        /** In the end: how often the first number has to be taken, so that the divisor is left. */
+        /** In the end how often the first number is in that divisor, as its sum with the second. */
         Whole factor = new Whole();
         private Whole y = new Whole();
         private Whole otherFactor = new Whole();
@@ -848,7 +851,7 @@ public final class ExactForms {
             this.divider = divider;
         }
 
-        /** Only the sizes count; with factors, factor times the first is x but for times the second. */
+        /** Only sizes count. With factors, x is factor times the first but for a multiple of the second. */
         void run(Whole first, Whole second, boolean factors) {
             x.copy(first);
             y.copy(second);
@@ -1485,7 +1488,7 @@ public final class ExactForms {
             }
         }
 
-        /** From Euclid's run on both cells: what makes their divisor of them, and how often it is in. */
+        /** From Euclid's run on both cells: the factors that make their divisor, and how often it is in each. */
         private void findFactors(int i, int t) {
             Whole g = desk.euclid.x;
             firstFactor.copy(desk.euclid.factor);

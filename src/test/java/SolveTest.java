@@ -105,6 +105,7 @@ public final class SolveTest {
     /** The weight is that of both side by side, with rows made whole together. */
     private static void weight(Check check) {
         WeightCheck.square(check, "solve", forms -> forms.solve(2, 0, 0));
+        WeightCheck.fractions(check, "solve", forms -> forms.solve(2, 0, 0));
         ExactForms forms = new ExactForms();
         Check.power(forms, 0, 2, 1, 1999);
         Check.put(forms, 1, "1");

@@ -1488,7 +1488,7 @@ public final class ExactForms {
             }
         }
 
-        /** From Euclid's run on both cells: the factors that make their divisor, and how often it is in each. */
+        /** From Euclid's run on both cells: the factors that make their divisor, and their rests by it. */
         private void findFactors(int i, int t) {
             Whole g = desk.euclid.x;
             firstFactor.copy(desk.euclid.factor);

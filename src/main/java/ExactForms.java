@@ -14,8 +14,12 @@ public final class ExactForms {
     private static final int MOST_BITS = 4000;
     private static final int MOST_LIMBS = 20000;
     private static final int MOST_WEIGHT = 2000;
+    /** What a register's numbers, which are never longer than MOST_BITS, need. */
+    private static final int KEPT_LIMBS = MOST_BITS / 32;
+    /** What the numbers that WEIGHT bounds need, and one for a carry. */
+    private static final int WEIGHED_LIMBS = MOST_WEIGHT / 32 + 2;
     /** Sums of 16 products of two numbers of 4000 bits need 251 limbs, with a carry 252. */
-    private static final int WIDEST = 256;
+    private static final int WIDEST = 252;
     /** Far above the rounds that any loop without a bound of its own can need. */
     private static final int ROUNDS = 1_000_000;
     private static final long MASK = 0xFFFFFFFFL;
@@ -23,7 +27,7 @@ public final class ExactForms {
 
     private final Matrix[] registers = new Matrix[REGISTERS];
     private final int[] everyColumn = new int[SIDE];
-    private final Matrix draft = new Matrix();
+    private final Matrix draft = new Matrix(WIDEST);
     private final Desk desk = new Desk();
     private final Elimination elimination = new Elimination(desk);
     private final Residues residues = new Residues(desk);
@@ -34,7 +38,7 @@ public final class ExactForms {
 
     public ExactForms() {
         for (int r = 0; r < REGISTERS; r++) {
-            registers[r] = new Matrix();
+            registers[r] = new Matrix(KEPT_LIMBS);
         }
         for (int c = 0; c < SIDE; c++) {
             everyColumn[c] = c;
@@ -489,25 +493,23 @@ public final class ExactForms {
         shownCell = -1;
     }
 
-    /** A whole number of any sign: its size in limbs of 32 bits, the lowest first, none of 0 on top. */
+    /**
+     * A whole number of any sign: its size in limbs of 32 bits, the lowest first, none of 0 on top. The
+     * limbs are made once, as many as the number's place can ever need, so that no call makes any.
+     */
     private static final class Whole {
-        int[] limbs = new int[2];
+        final int[] limbs;
         int count;
         boolean below;
 
-        /** The limbs grow with need: most numbers of a run are short, and what is made is counted. */
-        void room(int n) {
-            if (n <= limbs.length) {
-                return;
-            }
-            if (n > WIDEST) {
+        Whole(int width) {
+            limbs = new int[width];
+        }
+
+        void needRoom(int n) {
+            if (n > limbs.length) {
                 throw new UnsupportedOperationException("a number beyond all bounds");
             }
-            int[] wider = new int[n > WIDEST / 2 ? WIDEST : 2 * n];
-            for (int i = 0; i < limbs.length; i++) {
-                wider[i] = limbs[i];
-            }
-            limbs = wider;
         }
 
         void putZero() {
@@ -532,7 +534,7 @@ public final class ExactForms {
         }
 
         void copy(Whole other) {
-            room(other.count);
+            needRoom(other.count);
             System.arraycopy(other.limbs, 0, limbs, 0, other.count);
             count = other.count;
             below = other.below;
@@ -619,7 +621,7 @@ public final class ExactForms {
             Whole shorter = a.count >= b.count ? b : a;
             int n = longer.count;
             int m = shorter.count;
-            room(n + 1);
+            needRoom(n + 1);
             int[] to = limbs;
             int[] from = longer.limbs;
             int[] more = shorter.limbs;
@@ -643,7 +645,7 @@ public final class ExactForms {
         private void subtractSizes(Whole larger, Whole smaller, boolean resultBelow) {
             int n = larger.count;
             int m = smaller.count;
-            room(n);
+            needRoom(n);
             int[] to = limbs;
             int[] from = larger.limbs;
             int[] less = smaller.limbs;
@@ -670,7 +672,7 @@ public final class ExactForms {
                 return;
             }
             int n = b.count;
-            room(a.count + n);
+            needRoom(a.count + n);
             int[] to = limbs;
             int[] from = b.limbs;
             Arrays.fill(to, 0, n, 0);
@@ -692,8 +694,8 @@ public final class ExactForms {
 
     /** Division with the remainder's sign that of the number divided. */
     private static final class Divider {
-        Whole quotient = new Whole();
-        Whole remainder = new Whole();
+        Whole quotient = new Whole(WIDEST);
+        Whole remainder = new Whole(WIDEST);
         private final int[] high = new int[WIDEST + 1];
         private final int[] low = new int[WIDEST + 1];
 
@@ -717,7 +719,7 @@ public final class ExactForms {
         }
 
         private void divideByLimb(Whole a, long divisor) {
-            quotient.room(a.count);
+            quotient.needRoom(a.count);
             quotient.count = a.count;
             long rest = 0;
             if (divisor == 1) {
@@ -745,7 +747,7 @@ public final class ExactForms {
             int shift = 32 - Whole.bitsOf(b.limbs[n - 1]);
             shiftUp(a, high, shift);
             shiftUp(b, low, shift);
-            quotient.room(a.count - n + 1);
+            quotient.needRoom(a.count - n + 1);
             quotient.count = a.count - n + 1;
             for (int j = a.count - n; j >= 0; j--) {
                 long part = estimate(j + n, low[n - 1] & MASK, low[n - 2] & MASK);
@@ -755,7 +757,7 @@ public final class ExactForms {
                 }
                 quotient.limbs[j] = (int) part;
             }
-            remainder.room(n);
+            remainder.needRoom(n);
             remainder.count = n;
             for (int i = 0; i < n; i++) {
                 long both = high[i] & MASK | (i + 1 < n ? (long) high[i + 1] << 32 : 0);
@@ -834,12 +836,12 @@ public final class ExactForms {
         private static final int MOST_STEPS = 64;
 
         /** In the end the greatest common divisor. */
-        Whole x = new Whole();
+        Whole x = new Whole(WIDEST);
         /** In the end how often the first number is in that divisor, as its sum with the second. */
-        Whole factor = new Whole();
-        private Whole y = new Whole();
-        private Whole otherFactor = new Whole();
-        private Whole spare = new Whole();
+        Whole factor = new Whole(WIDEST);
+        private Whole y = new Whole(WIDEST);
+        private Whole otherFactor = new Whole(WIDEST);
+        private Whole spare = new Whole(WIDEST);
         private final Divider divider;
         private boolean odd;
         private long a;
@@ -996,7 +998,7 @@ public final class ExactForms {
         }
 
         private static void widen(Whole number, int n) {
-            number.room(n);
+            number.needRoom(n);
             for (int i = number.count; i < n; i++) {
                 number.limbs[i] = 0;
             }
@@ -1008,12 +1010,12 @@ public final class ExactForms {
     private static final class Desk {
         final Divider divider = new Divider();
         final Euclid euclid = new Euclid(divider);
-        final Whole left = new Whole();
-        final Whole right = new Whole();
-        final Whole sum = new Whole();
-        final Whole divisor = new Whole();
-        final Whole leftFactor = new Whole();
-        final Whole rightFactor = new Whole();
+        final Whole left = new Whole(WIDEST);
+        final Whole right = new Whole(WIDEST);
+        final Whole sum = new Whole(WIDEST);
+        final Whole divisor = new Whole(WIDEST);
+        final Whole leftFactor = new Whole(WIDEST);
+        final Whole rightFactor = new Whole(WIDEST);
 
         /** Puts into sum: a x + b y, or a x - b y. */
         void cross(Whole a, Whole x, Whole b, Whole y, boolean less) {
@@ -1047,8 +1049,8 @@ public final class ExactForms {
 
     /** A fraction of two whole numbers. */
     private static final class Fraction {
-        final Whole upper = new Whole();
-        final Whole lower = new Whole();
+        final Whole upper = new Whole(WIDEST);
+        final Whole lower = new Whole(WIDEST);
         private final Desk desk;
 
         Fraction(Desk desk) {
@@ -1089,13 +1091,14 @@ public final class ExactForms {
     private static final class Matrix {
         int rows = 1;
         int columns = 1;
-        final Whole common = new Whole();
+        final Whole common;
         private final Whole[] cells = new Whole[SIDE * SIDE];
 
-        Matrix() {
+        Matrix(int width) {
             for (int i = 0; i < SIDE * SIDE; i++) {
-                cells[i] = new Whole();
+                cells[i] = new Whole(width);
             }
+            common = new Whole(width);
             common.limbs[0] = 1;
             common.count = 1;
         }
@@ -1207,22 +1210,22 @@ public final class ExactForms {
         final int[] pivotColumns = new int[SIDE];
         final boolean[] isPivot = new boolean[WIDTH];
         /** The last pivot, of which the echelon form's cells are fractions; 1 before there is one. */
-        final Whole last = new Whole();
+        final Whole last = new Whole(WEIGHED_LIMBS);
         int rank;
         boolean swapped;
         private int rows;
         private int width;
         private final Whole[] grid = new Whole[SIDE * WIDTH];
-        private final Whole otherFactor = new Whole();
+        private final Whole otherFactor = new Whole(KEPT_LIMBS);
         private final Desk desk;
 
         Elimination(Desk desk) {
             this.desk = desk;
             for (int i = 0; i < SIDE; i++) {
-                rowFactors[i] = new Whole();
+                rowFactors[i] = new Whole(KEPT_LIMBS);
             }
             for (int i = 0; i < SIDE * WIDTH; i++) {
-                grid[i] = new Whole();
+                grid[i] = new Whole(WEIGHED_LIMBS);
             }
         }
 
@@ -1384,18 +1387,18 @@ public final class ExactForms {
         private int lineStep = SIDE;
         private int placeStep = 1;
         private final Whole[] cells = new Whole[SIDE * SIDE];
-        private final Whole modulus = new Whole();
-        private final Whole firstFactor = new Whole();
-        private final Whole secondFactor = new Whole();
-        private final Whole firstRest = new Whole();
-        private final Whole secondRest = new Whole();
-        private final Whole spare = new Whole();
+        private final Whole modulus = new Whole(WEIGHED_LIMBS);
+        private final Whole firstFactor = new Whole(WIDEST);
+        private final Whole secondFactor = new Whole(WIDEST);
+        private final Whole firstRest = new Whole(WIDEST);
+        private final Whole secondRest = new Whole(WIDEST);
+        private final Whole spare = new Whole(WIDEST);
         private final Desk desk;
 
         Residues(Desk desk) {
             this.desk = desk;
             for (int i = 0; i < SIDE * SIDE; i++) {
-                cells[i] = new Whole();
+                cells[i] = new Whole(WEIGHED_LIMBS);
             }
         }
 

@@ -7,6 +7,7 @@ public final class MultiplyTest {
         products(check);
         wrong(check);
         bounds(check);
+        longestSums(check);
         check.end("MultiplyTest");
     }
 
@@ -86,5 +87,34 @@ public final class MultiplyTest {
             () -> Check.fill(forms, 0, 16, 10, 1));
         Check.fill(forms, 0, 15, 10, 1);
         check.due("150 cells", forms.length(0, 14, 9, false), 4000);
+    }
+
+    /** Sixteen products of 4000 bits by 4000 are summed before anything can be shortened. */
+    private static void longestSums(Check check) {
+        ExactForms forms = new ExactForms();
+        // Both are squares, as WEIGHT lets nothing longer than 2000 bits be inverted.
+        squareAndInverse(forms, 0, 1, "-1");
+        squareAndInverse(forms, 2, 3, "-3");
+        forms.multiply(0, 0, 3);
+        forms.multiply(1, 1, 2);
+        check.due("upper", forms.length(0, 0, 0, false), 4000);
+        check.due("lower", forms.length(0, 0, 0, true), 4000);
+        for (int i = 0; i < 4; i++) {
+            forms.beside(0, 0, 0);
+            forms.beside(1, 1, 1);
+        }
+        forms.turn(1, 1);
+        forms.multiply(2, 0, 1);
+        check.register("x / y by y / x, sixteen times", forms, 2, "16");
+    }
+
+    /** Of 2^2000 plus the number. */
+    private static void squareAndInverse(ExactForms forms, int square, int inverse, String more) {
+        Check.power(forms, square, 2, 1, 2000);
+        Check.put(forms, 6, more);
+        forms.add(square, square, 6, false);
+        forms.invert(inverse, square);
+        forms.multiply(square, square, square);
+        forms.multiply(inverse, inverse, inverse);
     }
 }

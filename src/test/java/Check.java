@@ -9,13 +9,17 @@ final class Check {
 
     private static final String[] NAMES = {"nothing", "IndexOutOfBoundsException", "IllegalArgumentException",
         "UnsupportedOperationException", "something else"};
-    private static final int CHUNK = 60;
+    private static final int CHUNK = 62;
 
     private int wrong;
     private int done;
 
     interface Call {
         void run();
+    }
+
+    interface Answer {
+        Object get();
     }
 
     void due(String what, Object got, Object want) {
@@ -54,12 +58,12 @@ final class Check {
     }
 
     /** The call throws this, and all registers are as they were. */
-    void refused(String what, ExactForms forms, int want, Call call) {
+    void refused(String what, Counted forms, int want, Call call) {
         refused(what, forms, want, 8, call);
     }
 
     /** The same, where only the first registers are to stay. */
-    void refused(String what, ExactForms forms, int want, int registers, Call call) {
+    void refused(String what, Counted forms, int want, int registers, Call call) {
         Ratio[][][] before = new Ratio[registers][][];
         for (int r = 0; r < registers; r++) {
             before[r] = read(forms, r);
@@ -68,19 +72,29 @@ final class Check {
         unchanged(what, forms, before);
     }
 
-    void unchanged(String what, ExactForms forms, Ratio[][][] before) {
+    /** The call answers this, and all registers are as they were. */
+    void leaves(String what, Counted forms, Object want, Answer call) {
+        Ratio[][][] before = new Ratio[8][][];
+        for (int r = 0; r < 8; r++) {
+            before[r] = read(forms, r);
+        }
+        due(what, call.get(), want);
+        unchanged(what, forms, before);
+    }
+
+    void unchanged(String what, Counted forms, Ratio[][][] before) {
         for (int r = 0; r < before.length; r++) {
             holds(what + " leaves register " + r, Model.same(read(forms, r), before[r]));
         }
     }
 
-    void register(String what, ExactForms forms, int r, Ratio[][] want) {
+    void register(String what, Counted forms, int r, Ratio[][] want) {
         Ratio[][] got = read(forms, r);
         due(what, text(got), text(want));
     }
 
     /** A matrix written as its rows, ';' between them, the cells like 3 or -1/2. */
-    void register(String what, ExactForms forms, int r, String want) {
+    void register(String what, Counted forms, int r, String want) {
         due(what, text(read(forms, r)), text(parse(want)));
     }
 
@@ -111,7 +125,7 @@ final class Check {
         return s.toString();
     }
 
-    static Ratio[][] read(ExactForms forms, int r) {
+    static Ratio[][] read(Counted forms, int r) {
         Ratio[][] m = Model.zero(forms.size(r, false), forms.size(r, true));
         for (int i = 0; i < m.length; i++) {
             for (int j = 0; j < m[0].length; j++) {
@@ -122,7 +136,7 @@ final class Check {
     }
 
     /** A cell as it is shown; it must be shown in least terms. */
-    static Ratio cell(ExactForms forms, int r, int row, int column) {
+    static Ratio cell(Counted forms, int r, int row, int column) {
         BigInteger upper = size(forms, r, row, column, false);
         BigInteger lower = size(forms, r, row, column, true);
         int sign = forms.sign(r, row, column);
@@ -133,7 +147,7 @@ final class Check {
         return cell;
     }
 
-    private static BigInteger size(ExactForms forms, int r, int row, int column, boolean lower) {
+    private static BigInteger size(Counted forms, int r, int row, int column, boolean lower) {
         int bits = forms.length(r, row, column, lower);
         BigInteger size = BigInteger.ZERO;
         for (int k = (bits + 31) / 32; k >= 0; k--) {
@@ -146,12 +160,12 @@ final class Check {
         return size;
     }
 
-    static void put(ExactForms forms, int r, String text) {
+    static void put(Counted forms, int r, String text) {
         put(forms, r, parse(text));
     }
 
     /** Cells that fit are set; others are put together from chunks, with registers 6 and 7 as helpers. */
-    static void put(ExactForms forms, int r, Ratio[][] m) {
+    static void put(Counted forms, int r, Ratio[][] m) {
         int chunks = 1;
         for (Ratio[] row : m) {
             for (Ratio c : row) {
@@ -186,55 +200,47 @@ final class Check {
         return bits;
     }
 
-    private static void putLong(ExactForms forms, int r, Ratio[][] m, int chunks) {
+    private static void putLong(Counted forms, int r, Ratio[][] m, int chunks) {
         BigInteger common = Model.commonOf(m);
         int n = m.length;
-        forms.make(r, n, m[0].length);
-        for (int k = chunks - 1; k >= 0; k--) {
-            scaleUnit(forms, n, 1L << CHUNK);
+        scaleUnit(forms, n);
+        putChunk(forms, r, m, common, chunks - 1);
+        for (int k = chunks - 2; k >= 0; k--) {
             forms.multiply(r, 7, r);
-            forms.make(6, n, m[0].length);
-            for (int i = 0; i < n; i++) {
-                for (int j = 0; j < m[0].length; j++) {
-                    BigInteger whole = m[i][j].upper.abs().multiply(common).divide(m[i][j].lower);
-                    long chunk = whole.shiftRight(CHUNK * k).longValue() & (1L << CHUNK) - 1;
-                    if (chunk != 0) {
-                        forms.set(6, i, j, m[i][j].upper.signum() < 0 ? -chunk : chunk, 1);
-                    }
-                }
-            }
+            putChunk(forms, 6, m, common, k);
             forms.add(r, r, 6, false);
         }
         if (!common.equals(BigInteger.ONE)) {
-            putSize(forms, 5, common, (common.bitLength() + CHUNK - 1) / CHUNK);
+            putLong(forms, 5, new Ratio[][] {{Ratio.whole(common)}}, (common.bitLength() + CHUNK - 1) / CHUNK);
             forms.invert(5, 5);
             spread(forms, n);
             forms.multiply(r, 7, r);
         }
     }
 
-    private static void putSize(ExactForms forms, int r, BigInteger value, int chunks) {
-        forms.make(r, 1, 1);
-        for (int k = chunks - 1; k >= 0; k--) {
-            scaleUnit(forms, 1, 1L << CHUNK);
-            forms.multiply(r, 7, r);
-            forms.make(6, 1, 1);
-            forms.set(6, 0, 0, value.shiftRight(CHUNK * k).longValue() & (1L << CHUNK) - 1, 1);
-            forms.add(r, r, 6, false);
+    /** Register r becomes the bits from CHUNK k on of each cell times COMMON, with the cell's sign. */
+    private static void putChunk(Counted forms, int r, Ratio[][] m, BigInteger common, int k) {
+        forms.make(r, m.length, m[0].length);
+        for (int i = 0; i < m.length; i++) {
+            for (int j = 0; j < m[0].length; j++) {
+                BigInteger whole = m[i][j].upper.abs().multiply(common).divide(m[i][j].lower);
+                long chunk = whole.shiftRight(CHUNK * k).longValue() & (1L << CHUNK) - 1;
+                if (chunk != 0) {
+                    forms.set(r, i, j, m[i][j].upper.signum() < 0 ? -chunk : chunk, 1);
+                }
+            }
         }
     }
 
-    private static void scaleUnit(ExactForms forms, int n, long factor) {
+    private static void scaleUnit(Counted forms, int n) {
         forms.make(7, n, n);
         for (int i = 0; i < n; i++) {
-            forms.set(7, i, i, factor, 1);
+            forms.set(7, i, i, 1L << CHUNK, 1);
         }
     }
 
     /** Register 7 becomes the unit matrix times the one cell of register 5. */
-    private static void spread(ExactForms forms, int n) {
-        forms.unit(7, n);
-        forms.make(6, 1, n);
+    private static void spread(Counted forms, int n) {
         for (int i = 0; i < n; i++) {
             forms.make(6, n, 1);
             forms.set(6, i, 0, 1, 1);
@@ -252,7 +258,7 @@ final class Check {
     }
 
     /** Register r becomes the one cell (u / l) to the power e; register 7 is a helper. */
-    static void power(ExactForms forms, int r, long u, long l, int e) {
+    static void power(Counted forms, int r, long u, long l, int e) {
         forms.unit(r, 1);
         forms.make(7, 1, 1);
         forms.set(7, 0, 0, u, l);
@@ -265,7 +271,7 @@ final class Check {
     }
 
     /** Register r becomes rows and columns of 0 with the one cell of register from at a place. */
-    static void place(ExactForms forms, int r, int[] shape, int row, int column, int from) {
+    static void place(Counted forms, int r, int[] shape, int row, int column, int from) {
         forms.make(6, shape[0], 1);
         forms.set(6, row, 0, 1, 1);
         forms.multiply(6, 6, from);
@@ -275,7 +281,7 @@ final class Check {
     }
 
     /** Register r becomes rows and columns all of the one cell of register from. */
-    static void fill(ExactForms forms, int r, int rows, int columns, int from) {
+    static void fill(Counted forms, int r, int rows, int columns, int from) {
         forms.make(6, rows, 1);
         forms.make(7, 1, columns);
         for (int i = 0; i < rows; i++) {
@@ -292,7 +298,7 @@ final class Check {
      * Register 0 becomes 16 rows and 11 columns with 20000 limbs together: 159 cells of 125, one of 124,
      * COMMON of 1, the last column of 0. Register 1 is left with 2^3999, all others as helpers.
      */
-    static void full(ExactForms forms) {
+    static void full(Counted forms) {
         power(forms, 1, 2, 1, 3999);
         power(forms, 2, 2, 1, 3967);
         fill(forms, 0, 16, 9, 1);
@@ -304,6 +310,40 @@ final class Check {
         forms.beside(0, 0, 3);
         forms.make(4, 16, 1);
         forms.beside(0, 0, 4);
+    }
+
+    /**
+     * Register 0 becomes 16 rows and 10 columns with 20000 limbs together: COMMON is 2^3999, and all cells
+     * but the last, which is 0, are 1 + 1 / COMMON. Register 1 is left with 1 / COMMON.
+     */
+    static void fullOfFractions(Counted forms) {
+        power(forms, 1, 1, 2, 3999);
+        forms.unit(2, 1);
+        forms.add(2, 2, 1, false);
+        fill(forms, 0, 16, 9, 2);
+        fill(forms, 3, 16, 1, 2);
+        place(forms, 4, new int[] {16, 1}, 15, 0, 2);
+        forms.add(3, 3, 4, true);
+        forms.beside(0, 0, 3);
+    }
+
+    /** Of what full has left, the cell of 124 limbs becomes 2^e. */
+    static void shorten(Counted forms, int e) {
+        power(forms, 2, 2, 1, 3967);
+        place(forms, 4, new int[] {16, 11}, 5, 9, 2);
+        forms.add(0, 0, 4, true);
+        power(forms, 2, 2, 1, e);
+        place(forms, 4, new int[] {16, 11}, 5, 9, 2);
+        forms.add(0, 0, 4, false);
+    }
+
+    /** The greatest power of a number that has at most the given length. */
+    static int longestPower(int number, int bits) {
+        int e = 0;
+        while (BigInteger.valueOf(number).pow(e + 1).bitLength() <= bits) {
+            e++;
+        }
+        return e;
     }
 
     static String name(int kind) {

@@ -4,13 +4,12 @@ public final class EchelonTest {
         Check check = new Check();
         known(check);
         drawn(check);
-        wrong(check);
-        WeightCheck.square(check, "echelon", forms -> forms.echelon(2, 0));
-        WeightCheck.oblong(check, "echelon", forms -> forms.echelon(2, 0));
-        WeightCheck.fractions(check, "echelon", forms -> forms.echelon(2, 0));
+        registers(check);
+        weight(check);
         check.end("EchelonTest");
     }
 
+    /** Promise 10: "The echelon form: the rank." */
     private static void known(Check check) {
         known(check, "1 2 3; 4 5 6; 7 8 9", 2, "1 0 -1; 0 1 2; 0 0 0");
         known(check, "0 0 2 4; 0 3 0 1", 2, "0 1 0 1/3; 0 0 1 2");
@@ -21,12 +20,14 @@ public final class EchelonTest {
         known(check, "0 0 -5", 1, "0 0 1");
         known(check, "0; -2; 4", 1, "1; 0; 0");
         known(check, "2 1; 1 1; 0 7", 2, "1 0; 0 1; 0 0");
+        known(check, "0 0 0; 0 0 5; 0 0 0", 1, "0 0 1; 0 0 0; 0 0 0");
+        known(check, "0 0 1; 0 1 0; 1 0 0", 3, "1 0 0; 0 1 0; 0 0 1");
         known(check, "0 1 2 0 3; 0 2 4 0 6; 0 0 0 0 1; 0 1 2 1 3", 3,
             "0 1 2 0 0; 0 0 0 1 0; 0 0 0 0 1; 0 0 0 0 0");
     }
 
     private static void known(Check check, String from, int rank, String want) {
-        ExactForms forms = new ExactForms();
+        Counted forms = new Counted();
         Check.put(forms, 0, from);
         check.due("rank of " + from, forms.echelon(1, 0), rank);
         check.register("echelon form of " + from, forms, 1, want);
@@ -46,15 +47,15 @@ public final class EchelonTest {
                 : Model.fractions(draws.ofRank(rows, columns, draws.upTo(3), 40));
             compare(check, "drawn " + round, m);
         }
-        compare(check, "16 by 16 at the bound", Model.fractions(draws.wholes(16, 16, 121, 0)));
-        compare(check, "12 by 16 at the bound", Model.fractions(draws.wholes(12, 16, 162, 2)));
-        compare(check, "16 by 8 at the bound", Model.fractions(draws.wholes(16, 8, 247, 0)));
-        compare(check, "2 by 16 at the bound", Model.fractions(draws.wholes(2, 16, 999, 0)));
-        compare(check, "1 by 16 at the bound", Model.fractions(draws.wholes(1, 16, 2000, 0)));
+        compare(check, "16 by 16 at the bound", Model.fractions(draws.wholes(16, 16, 121, 4)));
+        compare(check, "12 by 16 at the bound", Model.fractions(draws.wholes(12, 16, 162, 4)));
+        compare(check, "16 by 8 at the bound", Model.fractions(draws.wholes(16, 8, 247, 4)));
+        compare(check, "2 by 16 at the bound", Model.fractions(draws.wholes(2, 16, 999, 4)));
+        compare(check, "1 by 16 at the bound", Model.fractions(draws.wholes(1, 16, 2000, 4)));
     }
 
     private static void compare(Check check, String what, Ratio[][] m) {
-        ExactForms forms = new ExactForms();
+        Counted forms = new Counted();
         Model model = new Model();
         Check.put(forms, 0, m);
         model.registers[0] = m;
@@ -62,13 +63,27 @@ public final class EchelonTest {
         check.register(what, forms, 1, model.registers[1]);
     }
 
-    private static void wrong(Check check) {
-        ExactForms forms = new ExactForms();
-        Check.put(forms, 0, "1 2; 3 4");
-        check.refused("to", forms, Check.INDEX, () -> forms.echelon(8, 0));
-        check.refused("a", forms, Check.INDEX, () -> forms.echelon(0, -1));
+    /** Promise 10: "IndexOutOfBoundsException;" */
+    private static void registers(Check check) {
+        Bounds.registers(check, "echelon", 2, (forms, r) -> forms.echelon(r[0], r[1]));
+        Counted forms = new Counted();
         Check.power(forms, 1, 2, 1, 2000);
-        check.refused("no register, too heavy", forms, Check.INDEX, () -> forms.echelon(8, 1));
-        check.refused("too heavy, to its own", forms, Check.UNSUPPORTED, () -> forms.echelon(1, 1));
+        for (int r : new int[] {-1, 8}) {
+            check.refused("it is named before WEIGHT", forms, Check.INDEX, () -> forms.echelon(r, 1));
+        }
+    }
+
+    /** Promise 10: "UnsupportedOperationException, WEIGHT." */
+    private static void weight(Check check) {
+        WeightCheck weight = new WeightCheck(check, "echelon", f -> f.echelon(2, 0), m -> m.echelon(2, 0));
+        weight.everySide();
+        weight.everyPlace();
+        weight.lesserSide();
+        weight.sharedFactors();
+        weight.zeros();
+        weight.rowsMadeWhole();
+        Counted forms = new Counted();
+        Check.power(forms, 1, 2, 1, 2000);
+        check.refused("to its own", forms, Check.UNSUPPORTED, () -> forms.echelon(1, 1));
     }
 }

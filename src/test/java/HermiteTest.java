@@ -7,12 +7,13 @@ public final class HermiteTest {
         known(check);
         drawn(check);
         atTheBound(check);
-        wrong(check);
-        WeightCheck.square(check, "hermite", forms -> forms.hermite(2, 0));
-        WeightCheck.oblong(check, "hermite", forms -> forms.hermite(2, 0));
+        registers(check);
+        notWhole(check);
+        weight(check);
         check.end("HermiteTest");
     }
 
+    /** Promise 15: "The Hermite form: the rank." */
     private static void known(Check check) {
         known(check, "0", 0, "0");
         known(check, "-5", 1, "5");
@@ -31,7 +32,7 @@ public final class HermiteTest {
     }
 
     private static void known(Check check, String from, int rank, String want) {
-        ExactForms forms = new ExactForms();
+        Counted forms = new Counted();
         Check.put(forms, 0, from);
         check.due("rank of " + from, forms.hermite(1, 0), rank);
         check.register("Hermite form of " + from, forms, 1, want);
@@ -53,7 +54,7 @@ public final class HermiteTest {
     }
 
     private static void compare(Check check, String what, BigInteger[][] m) {
-        ExactForms forms = new ExactForms();
+        Counted forms = new Counted();
         Check.put(forms, 0, Model.fractions(m));
         BigInteger[][] want = Wholes.copy(m);
         int rank = Wholes.hermite(want);
@@ -65,10 +66,10 @@ public final class HermiteTest {
     private static void atTheBound(Check check) {
         Draws draws = new Draws(16);
         compare(check, "8 by 8", draws.wholes(8, 8, 247, 0));
-        compare(check, "3 by 16", draws.wholes(3, 16, 664, 0));
-        compare(check, "16 by 3", draws.wholes(16, 3, 664, 0));
-        compare(check, "1 by 16", draws.wholes(1, 16, 2000, 0));
-        compare(check, "16 by 1", draws.wholes(16, 1, 2000, 0));
+        compare(check, "3 by 16", draws.wholes(3, 16, 664, 4));
+        compare(check, "16 by 3", draws.wholes(16, 3, 664, 4));
+        compare(check, "1 by 16", draws.wholes(1, 16, 2000, 4));
+        compare(check, "16 by 1", draws.wholes(16, 1, 2000, 6));
         compare(check, "16 by 16 of one bit", draws.wholes(16, 16, 1, 3));
         for (int round = 0; round < 10; round++) {
             BigInteger[][] m = draws.wholes(12, 12, 60, 3);
@@ -80,14 +81,14 @@ public final class HermiteTest {
             }
             compareMixed(check, "mixed " + round, m, draws.invertible(12, 60));
         }
-        ExactForms forms = new ExactForms();
-        Check.put(forms, 0, Model.fractions(draws.wholes(16, 16, 121, 0)));
+        Counted forms = new Counted();
+        Check.put(forms, 0, Model.fractions(draws.wholes(16, 16, 121, 4)));
         check.due("16 by 16 at the bound", forms.hermite(1, 0), 16);
         checkIsForm(check, forms);
     }
 
     private static void compareMixed(Check check, String what, BigInteger[][] form, BigInteger[][] factors) {
-        ExactForms forms = new ExactForms();
+        Counted forms = new Counted();
         Check.put(forms, 0, Model.fractions(Wholes.product(factors, form)));
         BigInteger[][] want = Wholes.copy(form);
         check.due(what, forms.hermite(1, 0), Wholes.hermite(want));
@@ -95,7 +96,7 @@ public final class HermiteTest {
     }
 
     /** Each is made of the other with whole factors: a over the form has whole cells, of determinant 1. */
-    private static void checkIsForm(Check check, ExactForms forms) {
+    private static void checkIsForm(Check check, Counted forms) {
         Ratio[][] h = Check.read(forms, 1);
         forms.determinant(2, 0);
         BigInteger product = BigInteger.ONE;
@@ -128,18 +129,50 @@ public final class HermiteTest {
         return f;
     }
 
-    private static void wrong(Check check) {
-        ExactForms forms = new ExactForms();
-        Check.put(forms, 0, "1 2; 3/2 4");
-        check.refused("not whole", forms, Check.ARGUMENT, () -> forms.hermite(1, 0));
-        check.refused("to", forms, Check.INDEX, () -> forms.hermite(8, 0));
-        check.refused("a", forms, Check.INDEX, () -> forms.hermite(0, -1));
+    /** Promise 15: "IndexOutOfBoundsException;" */
+    private static void registers(Check check) {
+        Bounds.registers(check, "hermite", 2, (forms, r) -> forms.hermite(r[0], r[1]));
+        Counted forms = new Counted();
         Check.power(forms, 1, 2, 1, 2000);
-        check.refused("too heavy", forms, Check.UNSUPPORTED, () -> forms.hermite(2, 1));
+        Check.put(forms, 2, "1/2");
+        for (int r : new int[] {-1, 8}) {
+            check.refused("it is named before WEIGHT", forms, Check.INDEX, () -> forms.hermite(r, 1));
+            check.refused("it is named before whole cells", forms, Check.INDEX, () -> forms.hermite(r, 2));
+        }
+    }
+
+    /** Promise 15: "IllegalArgumentException: some cell is not whole;" */
+    private static void notWhole(Check check) {
+        for (int i = 0; i < 6; i++) {
+            Counted forms = new Counted();
+            Check.put(forms, 0, "1 2 3; 4 5 6");
+            forms.set(0, i / 3, i % 3, -7, 2);
+            check.refused("cell " + i, forms, Check.ARGUMENT, () -> forms.hermite(1, 0));
+            check.refused("cell " + i + ", to its own", forms, Check.ARGUMENT, () -> forms.hermite(0, 0));
+            forms.set(0, i / 3, i % 3, -8, 2);
+            check.due("whole again", forms.hermite(1, 0), 2);
+        }
+        Counted forms = new Counted();
+        Check.power(forms, 1, 1, 2, 3999);
+        check.refused("the least fraction", forms, Check.ARGUMENT, () -> forms.hermite(2, 1));
+        Check.power(forms, 1, 2, 1, 2000);
         Check.fill(forms, 2, 2, 2, 1);
         forms.set(2, 0, 0, 1, 3);
-        check.refused("not whole, too heavy", forms, Check.ARGUMENT, () -> forms.hermite(3, 2));
+        check.refused("it is named before WEIGHT", forms, Check.ARGUMENT, () -> forms.hermite(3, 2));
         forms.set(2, 0, 0, 6, 3);
         check.refused("whole again, too heavy", forms, Check.UNSUPPORTED, () -> forms.hermite(3, 2));
+    }
+
+    /** Promise 15: "UnsupportedOperationException, WEIGHT." */
+    private static void weight(Check check) {
+        WeightCheck weight = new WeightCheck(check, "hermite", f -> f.hermite(2, 0), m -> m.hermite(2, 0));
+        weight.everySide();
+        weight.everyPlace();
+        weight.lesserSide();
+        weight.sharedFactors();
+        weight.zeros();
+        Counted forms = new Counted();
+        Check.power(forms, 1, 2, 1, 2000);
+        check.refused("to its own", forms, Check.UNSUPPORTED, () -> forms.hermite(1, 1));
     }
 }

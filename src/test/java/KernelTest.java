@@ -3,15 +3,14 @@ public final class KernelTest {
     public static void main(String[] args) {
         Check check = new Check();
         known(check);
-        none(check);
         drawn(check);
-        wrong(check);
-        WeightCheck.square(check, "kernel", forms -> forms.kernel(2, 0));
-        WeightCheck.oblong(check, "kernel", forms -> forms.kernel(2, 0));
-        WeightCheck.fractions(check, "kernel", forms -> forms.kernel(2, 0));
+        none(check);
+        registers(check);
+        weight(check);
         check.end("KernelTest");
     }
 
+    /** Promise 11: "The echelon form, without rows of 0, whose rows span all x with a x' = 0: how many rows;" */
     private static void known(Check check) {
         known(check, "1 2 3; 2 4 6", 2, "1 0 -1/3; 0 1 -2/3");
         known(check, "1 1", 1, "1 -1");
@@ -21,28 +20,22 @@ public final class KernelTest {
         known(check, "1 2 3; 4 5 6; 7 8 9", 1, "1 -2 1");
         known(check, "1 0 0 5; 0 1 0 -1/2", 2, "1 -1/10 0 -1/5; 0 0 1 0");
         known(check, "0 0 3", 2, "1 0 0; 0 1 0");
+        known(check, "3 0 0", 2, "0 1 0; 0 0 1");
+        known(check, "1 2; 2 4; 3 6", 1, "1 -1/2");
+        Counted forms = new Counted();
+        forms.make(0, 1, 16);
+        check.due("all of 16 columns", forms.kernel(0, 0), 16);
+        check.register("all of 16 columns", forms, 0, Model.one(16));
     }
 
     private static void known(Check check, String from, int count, String want) {
-        ExactForms forms = new ExactForms();
+        Counted forms = new Counted();
         Check.put(forms, 0, from);
         check.due("kernel of " + from, forms.kernel(1, 0), count);
         check.register("kernel of " + from, forms, 1, want);
         check.register("it stays", forms, 0, from);
         check.due("kernel of " + from, forms.kernel(0, 0), count);
         check.register("kernel to its own", forms, 0, want);
-    }
-
-    private static void none(Check check) {
-        for (String from : new String[] {"5", "1 2; 3 4", "1; 0; 2", "1 2; 2 4; 0 1/7"}) {
-            ExactForms forms = new ExactForms();
-            Check.put(forms, 0, from);
-            Check.put(forms, 1, "1/2 3");
-            check.due("kernel of " + from, forms.kernel(1, 0), 0);
-            check.register("nothing changes", forms, 1, "1/2 3");
-            check.due("kernel of " + from, forms.kernel(0, 0), 0);
-            check.register("nothing changes", forms, 0, from);
-        }
     }
 
     private static void drawn(Check check) {
@@ -54,13 +47,13 @@ public final class KernelTest {
                 : Model.fractions(draws.ofRank(rows, columns, draws.upTo(3), 30));
             compare(check, "drawn " + round, m);
         }
-        compare(check, "8 by 16 at the bound", Model.fractions(draws.wholes(8, 16, 247, 1)));
-        compare(check, "15 by 16 at the bound", Model.fractions(draws.wholes(15, 16, 129, 0)));
-        compare(check, "1 by 16 at the bound", Model.fractions(draws.wholes(1, 16, 2000, 0)));
+        compare(check, "8 by 16 at the bound", Model.fractions(draws.wholes(8, 16, 247, 4)));
+        compare(check, "15 by 16 at the bound", Model.fractions(draws.wholes(15, 16, 129, 4)));
+        compare(check, "1 by 16 at the bound", Model.fractions(draws.wholes(1, 16, 2000, 4)));
     }
 
     private static void compare(Check check, String what, Ratio[][] m) {
-        ExactForms forms = new ExactForms();
+        Counted forms = new Counted();
         Model model = new Model();
         Check.put(forms, 0, m);
         model.registers[0] = m;
@@ -75,13 +68,51 @@ public final class KernelTest {
         }
     }
 
-    private static void wrong(Check check) {
-        ExactForms forms = new ExactForms();
-        Check.put(forms, 0, "1 2; 3 4");
-        check.refused("to", forms, Check.INDEX, () -> forms.kernel(8, 0));
-        check.refused("a", forms, Check.INDEX, () -> forms.kernel(0, 8));
+    /** Promise 11: "0, and nothing changes, if there is none." */
+    private static void none(Check check) {
+        for (String from : new String[] {"5", "1 2; 3 4", "1; 0; 2", "1 2; 2 4; 0 1/7"}) {
+            Counted forms = new Counted();
+            Check.put(forms, 0, from);
+            Check.put(forms, 1, "1/2 3");
+            check.leaves("kernel of " + from, forms, 0, () -> forms.kernel(1, 0));
+            check.leaves("kernel of " + from + " to its own", forms, 0, () -> forms.kernel(0, 0));
+        }
+        Counted forms = new Counted();
+        forms.unit(0, 16);
+        check.leaves("none of 16 columns", forms, 0, () -> forms.kernel(1, 0));
+        forms.set(0, 15, 15, 0, 1);
+        check.due("one of 16 columns", forms.kernel(1, 0), 1);
+        Ratio[][] last = Model.zero(1, 16);
+        last[0][15] = Ratio.ONE;
+        check.register("one of 16 columns", forms, 1, last);
+    }
+
+    /** Promise 11: "IndexOutOfBoundsException;" */
+    private static void registers(Check check) {
+        Bounds.registers(check, "kernel", 2, (forms, r) -> forms.kernel(r[0], r[1]));
+        Counted forms = new Counted();
         Check.power(forms, 1, 2, 1, 2000);
-        check.refused("too heavy, though there is none", forms, Check.UNSUPPORTED, () -> forms.kernel(0, 1));
-        check.refused("no register, too heavy", forms, Check.INDEX, () -> forms.kernel(-1, 1));
+        Check.put(forms, 2, "5");
+        for (int r : new int[] {-1, 8}) {
+            check.refused("it is named before WEIGHT", forms, Check.INDEX, () -> forms.kernel(r, 1));
+            check.refused("also where there is none", forms, Check.INDEX, () -> forms.kernel(r, 2));
+        }
+    }
+
+    /** Promise 11: "UnsupportedOperationException, WEIGHT." */
+    private static void weight(Check check) {
+        WeightCheck weight = new WeightCheck(check, "kernel", f -> f.kernel(2, 0), m -> m.kernel(2, 0));
+        weight.everySide();
+        weight.everyPlace();
+        weight.lesserSide();
+        weight.sharedFactors();
+        weight.zeros();
+        weight.rowsMadeWhole();
+        Counted forms = new Counted();
+        Check.power(forms, 1, 2, 1, 1999);
+        check.leaves("there is none", forms, 0, () -> forms.kernel(0, 1));
+        Check.power(forms, 1, 2, 1, 2000);
+        check.refused("there would be none", forms, Check.UNSUPPORTED, () -> forms.kernel(0, 1));
+        check.refused("to its own", forms, Check.UNSUPPORTED, () -> forms.kernel(1, 1));
     }
 }

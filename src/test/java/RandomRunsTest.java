@@ -1,19 +1,25 @@
 import java.util.Random;
 
-/** Runs of drawn calls, right and wrong ones, each answered by the class as by the plain model. */
+/**
+ * Runs of drawn calls, right and wrong ones, each answered by the class as by the plain model. In most
+ * runs what a call changes is read at once; the others have as many calls as one object allows, and are
+ * read in the end.
+ */
 public final class RandomRunsTest {
-    private static final int RUNS = 300;
-    private static final int CALLS = 512;
+    private static final int RUNS = 1200;
+    private static final int CALLS = 100;
+    private static final int MOST_CALLS = 440;
     private static final int KINDS = 17;
 
     private final Check check = new Check();
     private final Random random;
-    private final ExactForms forms = new ExactForms();
+    private final Counted forms = new Counted();
     private final Model model = new Model();
     private final int widest;
     private final int numbers;
     /** Of one shape with many products, so that lengths come to their bounds. */
     private final boolean growing;
+    private final boolean isLong;
 
     /** One drawn call. */
     private int op;
@@ -34,6 +40,7 @@ public final class RandomRunsTest {
         widest = 1 + random.nextInt(seed % 8 == 0 ? 16 : 5);
         numbers = random.nextInt(4);
         growing = seed % 3 == 0;
+        isLong = seed % 50 == 7;
     }
 
     public static void main(String[] args) {
@@ -42,7 +49,8 @@ public final class RandomRunsTest {
         int[] seen = new int[KINDS * 5];
         for (long seed = from; seed < from + runs; seed++) {
             RandomRunsTest run = new RandomRunsTest(seed);
-            for (int call = 0; call < CALLS && run.check.isWell(); call++) {
+            int calls = run.isLong ? MOST_CALLS : CALLS;
+            for (int call = 0; call < calls && run.check.isWell(); call++) {
                 run.draw();
                 run.compare("run " + seed + ", call " + call, seen);
             }
@@ -99,7 +107,7 @@ public final class RandomRunsTest {
         }
         seen[op * 5 + want]++;
         int changed = op == 1 ? a : to;
-        if (changed >= 0 && changed < 8) {
+        if (changed >= 0 && changed < 8 && !isLong) {
             check.register(what, forms, changed, model.registers[changed]);
         }
     }

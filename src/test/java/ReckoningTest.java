@@ -11,7 +11,7 @@ public final class ReckoningTest {
 
     private final Check check = new Check();
     private final Random random = new Random(22);
-    private final ExactForms forms = new ExactForms();
+    private Counted forms;
 
     public static void main(String[] args) {
         ReckoningTest test = new ReckoningTest();
@@ -39,6 +39,7 @@ public final class ReckoningTest {
     }
 
     private void sums(BigInteger a, BigInteger b) {
+        forms = new Counted();
         put(0, a);
         put(1, b);
         forms.add(2, 0, 1, false);
@@ -55,6 +56,7 @@ public final class ReckoningTest {
             return;
         }
         BigInteger[][] m = {{BigInteger.ONE, a}, {BigInteger.ZERO, b}};
+        forms = new Counted();
         Check.put(forms, 0, Model.fractions(m));
         check.due("rank", forms.hermite(1, 0), 2);
         check.due(a + " by " + b, Check.cell(forms, 1, 0, 1).upper, a.mod(b.abs()));
@@ -67,6 +69,7 @@ public final class ReckoningTest {
             return;
         }
         BigInteger[][] m = {{a, BigInteger.ONE}, {b, BigInteger.ZERO}};
+        forms = new Counted();
         Check.put(forms, 0, Model.fractions(m));
         BigInteger[][] want = Wholes.copy(m);
         check.due("rank", forms.hermite(1, 0), Wholes.hermite(want));

@@ -2,7 +2,14 @@
 public final class SignTest {
     public static void main(String[] args) {
         Check check = new Check();
-        ExactForms forms = new ExactForms();
+        signs(check);
+        registersRowsAndColumns(check);
+        check.end("SignTest");
+    }
+
+    /** Promise 18: "A cell's sign, -1, 0 or 1." */
+    private static void signs(Check check) {
+        Counted forms = new Counted();
         Check.put(forms, 5, "1/2 -3 0; -5/6 1 0");
         int[][] want = {{1, -1, 0}, {-1, 1, 0}};
         for (int i = 0; i < 2; i++) {
@@ -10,19 +17,24 @@ public final class SignTest {
                 check.due("sign " + i + ", " + j, forms.sign(5, i, j), want[i][j]);
             }
         }
-        forms.set(5, 0, 0, Long.MIN_VALUE, 3);
-        check.due("the least long", forms.sign(5, 0, 0), -1);
-        forms.set(5, 0, 0, Long.MIN_VALUE, Long.MIN_VALUE);
-        check.due("over itself", forms.sign(5, 0, 0), 1);
-        forms.set(5, 0, 0, 4, -8);
-        check.due("the lower part below 0", forms.sign(5, 0, 0), -1);
-        forms.set(5, 0, 0, 0, -8);
-        check.due("0 / -8", forms.sign(5, 0, 0), 0);
-        int[][] places = {{-1, 0, 0}, {8, 0, 0}, {5, -1, 0}, {5, 2, 0}, {5, 0, -1}, {5, 0, 3}, {0, 0, 1}, {0, 1, 0},
-            {5, Integer.MAX_VALUE, 0}, {5, 0, Integer.MIN_VALUE}};
-        for (int[] p : places) {
-            check.refused("sign there", forms, Check.INDEX, () -> forms.sign(p[0], p[1], p[2]));
+        long[][] cells = {{Long.MIN_VALUE, 3, -1}, {Long.MIN_VALUE, Long.MIN_VALUE, 1}, {Long.MIN_VALUE, -1, 1},
+            {Long.MAX_VALUE, Long.MIN_VALUE, -1}, {4, -8, -1}, {-4, -8, 1}, {0, -8, 0}, {0, Long.MIN_VALUE, 0},
+            {1L << 32, 1, 1}, {-(1L << 32), 1, -1}};
+        for (long[] c : cells) {
+            forms.set(5, 0, 0, c[0], c[1]);
+            check.due(c[0] + " / " + c[1], (long) forms.sign(5, 0, 0), c[2]);
         }
-        check.end("SignTest");
+        Check.power(forms, 0, -2, 1, 3999);
+        check.due("-2^3999", forms.sign(0, 0, 0), -1);
+        Check.power(forms, 0, -1, 2, 3999);
+        check.due("-1 / 2^3999", forms.sign(0, 0, 0), -1);
+        forms.add(0, 0, 0, true);
+        check.due("less itself", forms.sign(0, 0, 0), 0);
+    }
+
+    /** Promise 18: "IndexOutOfBoundsException." */
+    private static void registersRowsAndColumns(Check check) {
+        Bounds.registers(check, "sign", 1, (forms, r) -> forms.sign(r[0], 0, 0));
+        Bounds.cells(check, "sign", (forms, r, row, column) -> forms.sign(r, row, column));
     }
 }

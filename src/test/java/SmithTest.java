@@ -2,6 +2,8 @@ import java.math.BigInteger;
 
 /** Promise 16: smith. */
 public final class SmithTest {
+    private static final long[] PARTS = {0, 0, 1, 2, 3, 4, 6, 8, 9, 12, 16, 30, 36, 64, 72, 210, 1024, 6561, 2310};
+
     public static void main(String[] args) {
         Check check = new Check();
         known(check);
@@ -9,12 +11,13 @@ public final class SmithTest {
         drawn(check);
         hidden(check);
         atTheBound(check);
-        wrong(check);
-        WeightCheck.square(check, "smith", forms -> forms.smith(2, 0));
-        WeightCheck.oblong(check, "smith", forms -> forms.smith(2, 0));
+        registers(check);
+        notWhole(check);
+        weight(check);
         check.end("SmithTest");
     }
 
+    /** Promise 16: "The Smith form: the rank." */
     private static void known(Check check) {
         known(check, "0", 0, "0");
         known(check, "-5", 1, "5");
@@ -32,7 +35,7 @@ public final class SmithTest {
     }
 
     private static void known(Check check, String from, int rank, String want) {
-        ExactForms forms = new ExactForms();
+        Counted forms = new Counted();
         Check.put(forms, 0, from);
         check.due("rank of " + from, forms.smith(1, 0), rank);
         check.register("Smith form of " + from, forms, 1, want);
@@ -49,7 +52,7 @@ public final class SmithTest {
             BigInteger[][] m = round % 2 == 0
                 ? draws.wholes(draws.upTo(4), draws.upTo(4), draws.upTo(7), round % 8)
                 : draws.ofRank(draws.upTo(5), draws.upTo(4), draws.upTo(3), draws.upTo(7));
-            ExactForms forms = new ExactForms();
+            Counted forms = new Counted();
             Check.put(forms, 0, Model.fractions(m));
             int rank = forms.smith(1, 0);
             BigInteger product = BigInteger.ONE;
@@ -72,7 +75,7 @@ public final class SmithTest {
     }
 
     private static void compare(Check check, String what, BigInteger[][] m) {
-        ExactForms forms = new ExactForms();
+        Counted forms = new Counted();
         Check.put(forms, 0, Model.fractions(m));
         BigInteger[][] want = Wholes.copy(m);
         check.due(what, forms.smith(1, 0), Wholes.smith(want));
@@ -100,23 +103,21 @@ public final class SmithTest {
                 draws.invertible(columns, 3 * columns));
             BigInteger[][] want = Wholes.copy(diagonal);
             int rank = Wholes.smith(want);
-            ExactForms forms = new ExactForms();
+            Counted forms = new Counted();
             Check.put(forms, 0, Model.fractions(m));
             check.due("hidden " + round, forms.smith(1, 0), rank);
             check.register("hidden " + round, forms, 1, Model.fractions(want));
         }
     }
 
-    private static final long[] PARTS = {0, 0, 1, 2, 3, 4, 6, 8, 9, 12, 16, 30, 36, 64, 72, 210, 1024, 6561, 2310};
-
     private static void atTheBound(Check check) {
         Draws draws = new Draws(20);
-        compare(check, "1 by 16", draws.wholes(1, 16, 2000, 0));
+        compare(check, "1 by 16", draws.wholes(1, 16, 2000, 4));
         compare(check, "2 by 2", draws.wholes(2, 2, 999, 0));
         compare(check, "3 by 3", draws.wholes(3, 3, 664, 0));
-        compare(check, "5 by 4", draws.wholes(5, 4, 498, 0));
-        ExactForms forms = new ExactForms();
-        Check.put(forms, 0, Model.fractions(draws.wholes(16, 16, 121, 0)));
+        compare(check, "5 by 4", draws.wholes(5, 4, 498, 1));
+        Counted forms = new Counted();
+        Check.put(forms, 0, Model.fractions(draws.wholes(16, 16, 121, 4)));
         check.due("16 by 16", forms.smith(1, 0), 16);
         forms.determinant(2, 0);
         BigInteger product = BigInteger.ONE;
@@ -126,16 +127,50 @@ public final class SmithTest {
         check.due("16 by 16", product, Check.cell(forms, 2, 0, 0).upper.abs());
     }
 
-    private static void wrong(Check check) {
-        ExactForms forms = new ExactForms();
-        Check.put(forms, 0, "1 2; 3/2 4");
-        check.refused("not whole", forms, Check.ARGUMENT, () -> forms.smith(1, 0));
-        check.refused("to", forms, Check.INDEX, () -> forms.smith(8, 0));
-        check.refused("a", forms, Check.INDEX, () -> forms.smith(0, -1));
+    /** Promise 16: "IndexOutOfBoundsException;" */
+    private static void registers(Check check) {
+        Bounds.registers(check, "smith", 2, (forms, r) -> forms.smith(r[0], r[1]));
+        Counted forms = new Counted();
         Check.power(forms, 1, 2, 1, 2000);
-        check.refused("too heavy", forms, Check.UNSUPPORTED, () -> forms.smith(2, 1));
+        Check.put(forms, 2, "1/2");
+        for (int r : new int[] {-1, 8}) {
+            check.refused("it is named before WEIGHT", forms, Check.INDEX, () -> forms.smith(r, 1));
+            check.refused("it is named before whole cells", forms, Check.INDEX, () -> forms.smith(r, 2));
+        }
+    }
+
+    /** Promise 16: "IllegalArgumentException: some cell is not whole;" */
+    private static void notWhole(Check check) {
+        for (int i = 0; i < 6; i++) {
+            Counted forms = new Counted();
+            Check.put(forms, 0, "1 2 3; 4 5 6");
+            forms.set(0, i / 3, i % 3, -7, 2);
+            check.refused("cell " + i, forms, Check.ARGUMENT, () -> forms.smith(1, 0));
+            check.refused("cell " + i + ", to its own", forms, Check.ARGUMENT, () -> forms.smith(0, 0));
+            forms.set(0, i / 3, i % 3, -8, 2);
+            check.due("whole again", forms.smith(1, 0), 2);
+        }
+        Counted forms = new Counted();
+        Check.power(forms, 1, 1, 2, 3999);
+        check.refused("the least fraction", forms, Check.ARGUMENT, () -> forms.smith(2, 1));
+        Check.power(forms, 1, 2, 1, 2000);
         Check.fill(forms, 2, 2, 2, 1);
         forms.set(2, 0, 0, 1, 3);
-        check.refused("not whole, too heavy", forms, Check.ARGUMENT, () -> forms.smith(3, 2));
+        check.refused("it is named before WEIGHT", forms, Check.ARGUMENT, () -> forms.smith(3, 2));
+        forms.set(2, 0, 0, 6, 3);
+        check.refused("whole again, too heavy", forms, Check.UNSUPPORTED, () -> forms.smith(3, 2));
+    }
+
+    /** Promise 16: "UnsupportedOperationException, WEIGHT." */
+    private static void weight(Check check) {
+        WeightCheck weight = new WeightCheck(check, "smith", f -> f.smith(2, 0), m -> m.smith(2, 0));
+        weight.everySide();
+        weight.everyPlace();
+        weight.lesserSide();
+        weight.sharedFactors();
+        weight.zeros();
+        Counted forms = new Counted();
+        Check.power(forms, 1, 2, 1, 2000);
+        check.refused("to its own", forms, Check.UNSUPPORTED, () -> forms.smith(1, 1));
     }
 }

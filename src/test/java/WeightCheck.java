@@ -1,72 +1,182 @@
 import java.math.BigInteger;
 
-/** WEIGHT at its bound, the same for every call that names it. */
+/** WEIGHT at its bound of 2000, the same for every call that names it. */
 final class WeightCheck {
     /** A call on register 0, with its result to register 2. */
-    interface Form {
-        void work(ExactForms forms);
+    interface OnClass {
+        long answer(Counted forms);
     }
 
-    private WeightCheck() {
+    /** The same of the plain model. */
+    interface OnModel {
+        long answer(Model model);
     }
 
-    /** One cell of length b in a matrix else of 0 or 1: b may be at most 2000 / k - L(k). */
-    static void square(Check check, String what, Form form) {
-        int[][] most = {{1, 2000}, {2, 999}, {3, 664}, {4, 498}, {5, 397}, {7, 282}, {8, 247}, {9, 218}, {15, 129},
-            {16, 121}};
-        for (int[] m : most) {
-            ExactForms forms = new ExactForms();
-            Ratio[][] x = Model.one(m[0]);
-            x[m[0] - 1][0] = Ratio.whole(BigInteger.ONE.shiftLeft(m[1] - 1).negate());
-            Check.put(forms, 0, x);
-            check.due(what + ", k " + m[0] + ", b " + m[1], Check.thrown(() -> form.work(forms)), Check.NONE);
-            x[m[0] - 1][0] = Ratio.whole(BigInteger.ONE.shiftLeft(m[1]));
-            Check.put(forms, 0, x);
-            check.refused(what + ", k " + m[0] + ", b " + (m[1] + 1), forms, Check.UNSUPPORTED,
-                () -> form.work(forms));
+    /** L(k) for k from 1 to 16, written out. */
+    private static final int[] POWERS = {0, 1, 2, 2, 3, 3, 3, 3, 4, 4, 4, 4, 4, 4, 4, 4};
+
+    private final Check check;
+    private final String what;
+    private final OnClass onClass;
+    private final OnModel onModel;
+    private long answer;
+
+    WeightCheck(Check check, String what, OnClass onClass, OnModel onModel) {
+        this.check = check;
+        this.what = what;
+        this.onClass = onClass;
+        this.onModel = onModel;
+    }
+
+    /** The greatest length that cells may have where k is the lesser side. */
+    static int mostBits(int k) {
+        return 2000 / k - POWERS[k - 1];
+    }
+
+    /**
+     * Terms: "L(k) the least e with 2^e not below k: k (b + L(k))." Cells of the greatest length that keeps
+     * this at most 2000, and one bit longer, for every k.
+     */
+    void everySide() {
+        for (int k = 1; k <= 16; k++) {
+            int b = mostBits(k);
+            Ratio[][] m = Model.one(k);
+            m[k - 1][0] = power(b - 1).times(Ratio.of(-1, 1));
+            isTaken("k " + k + ", 2^" + (b - 1), m);
+            m[k - 1][0] = power(b).minus(Ratio.ONE);
+            isTaken("k " + k + ", 2^" + b + " - 1", m);
+            m[k - 1][0] = power(b);
+            isRefused("k " + k + ", 2^" + b, m);
         }
     }
 
-    /** k is the lesser of rows and columns, and zeros do not make it less. */
-    static void oblong(Check check, String what, Form form) {
-        ExactForms forms = new ExactForms();
-        Ratio[][] x = Model.zero(3, 2);
-        x[2][1] = Ratio.whole(BigInteger.ONE.shiftLeft(998));
-        Check.put(forms, 0, x);
-        check.due(what + ", 3 rows, 2 columns", Check.thrown(() -> form.work(forms)), Check.NONE);
-        Check.put(forms, 0, Model.turned(x));
-        check.due(what + ", 2 rows, 3 columns", Check.thrown(() -> form.work(forms)), Check.NONE);
-        x[2][1] = Ratio.whole(BigInteger.ONE.shiftLeft(999));
-        Check.put(forms, 0, x);
-        check.refused(what + ", 3 rows, too long", forms, Check.UNSUPPORTED, () -> form.work(forms));
-        Check.put(forms, 0, Model.turned(x));
-        check.refused(what + ", 3 columns, too long", forms, Check.UNSUPPORTED, () -> form.work(forms));
-        x = Model.zero(1, 16);
-        x[0][15] = Ratio.whole(BigInteger.ONE.shiftLeft(1999));
-        Check.put(forms, 0, x);
-        check.due(what + ", one row", Check.thrown(() -> form.work(forms)), Check.NONE);
-        Check.put(forms, 0, Model.turned(x));
-        check.due(what + ", one column", Check.thrown(() -> form.work(forms)), Check.NONE);
+    /** Terms: "b the greatest length of all cells then," It counts wherever it is, and with any sign. */
+    void everyPlace() {
+        for (int i = 0; i < 3; i++) {
+            for (int j = 0; j < 3; j++) {
+                Ratio[][] m = Model.one(3);
+                m[i][j] = power(663);
+                isTaken("row " + i + ", column " + j, m);
+                m[i][j] = power(664).times(Ratio.of(-1, 1));
+                isRefused("row " + i + ", column " + j, m);
+            }
+        }
     }
 
-    /** Each row is made whole by itself: long lower parts weigh nothing where the row has nothing else. */
-    static void fractions(Check check, String what, Form form) {
-        ExactForms forms = new ExactForms();
-        Check.power(forms, 1, 1, 2, 1998);
-        Check.place(forms, 3, new int[] {2, 2}, 0, 0, 1);
-        Check.power(forms, 1, 1, 3, 1200);
-        Check.place(forms, 4, new int[] {2, 2}, 1, 1, 1);
-        forms.add(0, 3, 4, false);
-        check.due(what + ", each row is 1 and 0", Check.thrown(() -> form.work(forms)), Check.NONE);
-        forms.add(0, 3, 4, false);
-        forms.set(0, 0, 1, 1, 1L << 62);
-        check.refused(what + ", 2^1936 beside 1", forms, Check.UNSUPPORTED, () -> form.work(forms));
-        Check.power(forms, 1, 1, 2, 998);
-        Check.place(forms, 0, new int[] {2, 2}, 1, 1, 1);
-        forms.set(0, 1, 0, -1, 1);
-        check.due(what + ", 2^998 beside 1", Check.thrown(() -> form.work(forms)), Check.NONE);
-        Check.place(forms, 0, new int[] {2, 2}, 1, 1, 1);
-        forms.set(0, 1, 0, -2, 1);
-        check.refused(what + ", 2^999 beside 1", forms, Check.UNSUPPORTED, () -> form.work(forms));
+    /** Terms: "k the lesser of rows and columns," Rows and columns of 0 do not make it less. */
+    void lesserSide() {
+        int[][] shapes = {{3, 2, 2}, {2, 3, 2}, {16, 2, 2}, {2, 16, 2}, {1, 16, 1}, {16, 1, 1}, {5, 4, 4}, {4, 5, 4}};
+        for (int[] shape : shapes) {
+            int b = mostBits(shape[2]);
+            Ratio[][] m = Model.zero(shape[0], shape[1]);
+            m[shape[0] - 1][shape[1] - 1] = power(b - 1);
+            isTaken(shape[0] + " by " + shape[1], m);
+            m[shape[0] - 1][shape[1] - 1] = power(b);
+            isRefused(shape[0] + " by " + shape[1], m);
+        }
+    }
+
+    /**
+     * Terms: "WEIGHT of a matrix: let each row be times the least number above 0 that makes it whole," For
+     * whole cells that is 1: a factor that they share is not taken out.
+     */
+    void sharedFactors() {
+        Ratio[][] m = {{power(998), power(998)}, {power(998), power(998)}};
+        isTaken("2^998 all over", m);
+        m = new Ratio[][] {{power(999), power(999)}, {power(999), power(999)}};
+        isRefused("2^999 all over", m);
+    }
+
+    /** Without any cell that is not 0, b is 0. */
+    void zeros() {
+        isTaken("16 by 16 of 0", Model.zero(16, 16));
+        isTaken("1 by 1 of 0", Model.zero(1, 1));
+    }
+
+    /**
+     * Terms: "WEIGHT of a matrix: let each row be times the least number above 0 that makes it whole," Each
+     * row by itself: COMMON of all is not asked for, and of several such numbers only the least.
+     */
+    void rowsMadeWhole() {
+        Ratio one = Ratio.ONE;
+        Ratio nothing = Ratio.ZERO;
+        isTaken("each row becomes 1 and 0", new Ratio[][] {{below(2, 1998), nothing}, {nothing, below(3, 1200)}});
+        isRefused("2^1936 beside 1", new Ratio[][] {{below(2, 1998), below(2, 62)}, {nothing, below(3, 1200)}});
+        isTaken("2^998 beside 1", new Ratio[][] {{nothing, one}, {one, below(2, 998)}});
+        isRefused("2^999 beside 1", new Ratio[][] {{nothing, one}, {one, below(2, 999)}});
+        isTaken("2^997 by 2 beside 1", new Ratio[][] {{nothing, one}, {Ratio.of(-2, 1), below(2, 997)}});
+        isRefused("2^998 by 2 beside 1", new Ratio[][] {{nothing, one}, {Ratio.of(-2, 1), below(2, 998)}});
+        Ratio third = Ratio.of(1, 3);
+        isTaken("3 by 2^997 beside 1", new Ratio[][] {{nothing, one}, {power(997), third}});
+        isRefused("3 by 2^998 beside 1", new Ratio[][] {{nothing, one}, {power(998), third}});
+        Ratio quarter = power(997).plus(one).over(Ratio.of(4, 1));
+        isTaken("12 is the least for quarters and sixths", new Ratio[][] {{quarter, Ratio.of(1, 6)}, {nothing, one}});
+        Ratio longer = power(998).plus(one).over(Ratio.of(4, 1));
+        isRefused("a quarter by 12 is too long", new Ratio[][] {{longer, Ratio.of(1, 6)}, {nothing, one}});
+    }
+
+    private static Ratio power(int e) {
+        return Ratio.whole(BigInteger.TWO.pow(e));
+    }
+
+    private static Ratio below(int number, int e) {
+        return new Ratio(BigInteger.ONE, BigInteger.valueOf(number).pow(e));
+    }
+
+    void isTaken(String which, Ratio[][] m) {
+        Counted forms = new Counted();
+        Model model = new Model();
+        put(forms, m);
+        model.registers[0] = m;
+        long want = onModel.answer(model);
+        check.due(what + ", " + which + ", throws",
+            Check.name(Check.thrown(() -> answer = onClass.answer(forms))), Check.name(Check.NONE));
+        check.due(what + ", " + which, answer, want);
+        check.register(what + ", " + which, forms, 2, model.registers[2]);
+    }
+
+    void isRefused(String which, Ratio[][] m) {
+        Counted forms = new Counted();
+        put(forms, m);
+        check.refused(what + ", " + which, forms, Check.UNSUPPORTED, () -> onClass.answer(forms));
+    }
+
+    /** Long cells one by one, as all together would take too many calls. */
+    private static void put(Counted forms, Ratio[][] m) {
+        int[] shape = {m.length, m[0].length};
+        forms.make(0, shape[0], shape[1]);
+        for (int i = 0; i < shape[0]; i++) {
+            for (int j = 0; j < shape[1]; j++) {
+                Ratio cell = m[i][j];
+                if (cell.upper.bitLength() < 64 && cell.lower.bitLength() < 64) {
+                    if (!cell.isZero()) {
+                        forms.set(0, i, j, cell.upper.longValueExact(), cell.lower.longValueExact());
+                    }
+                } else {
+                    putFactors(forms, cell);
+                    Check.place(forms, 3, shape, i, j, 4);
+                    forms.add(0, 0, 3, false);
+                }
+            }
+        }
+    }
+
+    /** Register 4 becomes a power of 2, or one more or less, over a power of 2 or of 3, with any sign. */
+    private static void putFactors(Counted forms, Ratio cell) {
+        BigInteger size = cell.upper.abs();
+        int e = size.add(BigInteger.ONE).bitLength() - 1;
+        Check.power(forms, 4, 2, 1, e);
+        forms.make(5, 1, 1);
+        forms.set(5, 0, 0, size.subtract(BigInteger.TWO.pow(e)).longValueExact(), 1);
+        forms.add(4, 4, 5, false);
+        if (cell.upper.signum() < 0) {
+            forms.make(5, 1, 1);
+            forms.add(4, 5, 4, true);
+        }
+        if (!cell.lower.equals(BigInteger.ONE)) {
+            int factor = cell.lower.testBit(0) ? 3 : 2;
+            Check.power(forms, 5, 1, factor, Check.longestPower(factor, cell.lower.bitLength()));
+            forms.multiply(4, 4, 5);
+        }
     }
 }

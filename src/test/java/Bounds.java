@@ -86,4 +86,29 @@ final class Bounds {
             }
         }
     }
+
+    /** A call to register 1, or to its own, of a matrix of which one cell is not whole, whichever it is. */
+    static void wholeCells(Check check, String what, Call call) {
+        for (int i = 0; i < 6; i++) {
+            Counted forms = new Counted();
+            Check.put(forms, 0, "1 2 3; 4 5 6");
+            forms.set(0, i / 3, i % 3, -7, 2);
+            for (int to = 0; to < 2; to++) {
+                int[] at = {to, 0};
+                check.refused(what + " to " + to + ", cell " + i, forms, Check.ARGUMENT, () -> call.on(forms, at));
+            }
+            forms.set(0, i / 3, i % 3, -8, 2);
+            check.due(what + ", whole again", Check.thrown(() -> call.on(forms, new int[] {1, 0})), Check.NONE);
+        }
+        Counted forms = new Counted();
+        int[] at = {2, 1};
+        Check.power(forms, 1, 1, 2, 3999);
+        check.refused(what + " of the least fraction", forms, Check.ARGUMENT, () -> call.on(forms, at));
+        Check.power(forms, 3, 2, 1, 2000);
+        Check.fill(forms, 1, 2, 2, 3);
+        forms.set(1, 0, 0, 1, 3);
+        check.refused(what + ", it is named before WEIGHT", forms, Check.ARGUMENT, () -> call.on(forms, at));
+        forms.set(1, 0, 0, 6, 3);
+        check.refused(what + ", whole again, too heavy", forms, Check.UNSUPPORTED, () -> call.on(forms, at));
+    }
 }

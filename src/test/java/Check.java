@@ -190,6 +190,46 @@ final class Check {
         }
     }
 
+    /**
+     * Cells that are no powers must be short; a long one is a power of 2, or one more or less, over a power
+     * of 2 or of 3. Each is put by itself, which takes some 60 calls, with registers 3 to 7 as helpers.
+     */
+    static void putPowers(Counted forms, int r, Ratio[][] m) {
+        int[] shape = {m.length, m[0].length};
+        forms.make(r, shape[0], shape[1]);
+        for (int i = 0; i < shape[0]; i++) {
+            for (int j = 0; j < shape[1]; j++) {
+                Ratio cell = m[i][j];
+                if (cell.upper.bitLength() > 63 || cell.lower.bitLength() > 63) {
+                    putPower(forms, cell);
+                    place(forms, 3, shape, i, j, 4);
+                    forms.add(r, r, 3, false);
+                } else if (!cell.isZero()) {
+                    forms.set(r, i, j, cell.upper.longValueExact(), cell.lower.longValueExact());
+                }
+            }
+        }
+    }
+
+    /** Register 4 becomes that cell. */
+    private static void putPower(Counted forms, Ratio cell) {
+        BigInteger size = cell.upper.abs();
+        int e = size.add(BigInteger.ONE).bitLength() - 1;
+        power(forms, 4, 2, 1, e);
+        forms.make(5, 1, 1);
+        forms.set(5, 0, 0, size.subtract(BigInteger.TWO.pow(e)).longValueExact(), 1);
+        forms.add(4, 4, 5, false);
+        if (cell.upper.signum() < 0) {
+            forms.make(5, 1, 1);
+            forms.add(4, 5, 4, true);
+        }
+        if (!cell.lower.equals(BigInteger.ONE)) {
+            int factor = cell.lower.testBit(0) ? 3 : 2;
+            power(forms, 5, 1, factor, longestPower(factor, cell.lower.bitLength()));
+            forms.multiply(4, 4, 5);
+        }
+    }
+
     private static int scaled(Ratio[][] m, BigInteger common) {
         int bits = 0;
         for (Ratio[] row : m) {
@@ -344,6 +384,23 @@ final class Check {
             e++;
         }
         return e;
+    }
+
+    /** An object whose calls have worked on all of 16 rows and columns before, none of whose cells was 0. */
+    static Counted usedBefore() {
+        Counted forms = new Counted();
+        forms.unit(1, 1);
+        fill(forms, 0, 16, 16, 1);
+        forms.unit(2, 16);
+        forms.add(0, 0, 2, false);
+        forms.echelon(1, 0);
+        forms.kernel(1, 0);
+        forms.hermite(1, 0);
+        forms.smith(1, 0);
+        forms.invert(1, 0);
+        forms.solve(2, 0, 1);
+        forms.multiply(3, 1, 2);
+        return forms;
     }
 
     static String name(int kind) {

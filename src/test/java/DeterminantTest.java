@@ -127,10 +127,7 @@ public final class DeterminantTest {
                 m.determinant(2, 0);
                 return 0;
             });
-        weight.everySide();
-        weight.everyPlace();
-        weight.sharedFactors();
-        weight.zeros();
+        weight.ofSquares();
         weight.rowsMadeWhole();
         Counted forms = new Counted();
         Check.power(forms, 1, 2, 1, 2000);

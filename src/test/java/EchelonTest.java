@@ -76,11 +76,7 @@ public final class EchelonTest {
     /** Promise 10: "UnsupportedOperationException, WEIGHT." */
     private static void weight(Check check) {
         WeightCheck weight = new WeightCheck(check, "echelon", f -> f.echelon(2, 0), m -> m.echelon(2, 0));
-        weight.everySide();
-        weight.everyPlace();
-        weight.lesserSide();
-        weight.sharedFactors();
-        weight.zeros();
+        weight.ofAnyShape();
         weight.rowsMadeWhole();
         Counted forms = new Counted();
         Check.power(forms, 1, 2, 1, 2000);

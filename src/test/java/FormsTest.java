@@ -37,7 +37,8 @@ public final class FormsTest {
     private String put(BigInteger[][] m) {
         made++;
         if (made % AT_ONCE == 0) {
-            forms = new Counted();
+            // What other matrices left behind must not show.
+            forms = Check.usedBefore();
         }
         Ratio[][] all = Model.fractions(m);
         Check.put(forms, 0, all);

@@ -143,34 +143,13 @@ public final class HermiteTest {
 
     /** Promise 15: "IllegalArgumentException: some cell is not whole;" */
     private static void notWhole(Check check) {
-        for (int i = 0; i < 6; i++) {
-            Counted forms = new Counted();
-            Check.put(forms, 0, "1 2 3; 4 5 6");
-            forms.set(0, i / 3, i % 3, -7, 2);
-            check.refused("cell " + i, forms, Check.ARGUMENT, () -> forms.hermite(1, 0));
-            check.refused("cell " + i + ", to its own", forms, Check.ARGUMENT, () -> forms.hermite(0, 0));
-            forms.set(0, i / 3, i % 3, -8, 2);
-            check.due("whole again", forms.hermite(1, 0), 2);
-        }
-        Counted forms = new Counted();
-        Check.power(forms, 1, 1, 2, 3999);
-        check.refused("the least fraction", forms, Check.ARGUMENT, () -> forms.hermite(2, 1));
-        Check.power(forms, 1, 2, 1, 2000);
-        Check.fill(forms, 2, 2, 2, 1);
-        forms.set(2, 0, 0, 1, 3);
-        check.refused("it is named before WEIGHT", forms, Check.ARGUMENT, () -> forms.hermite(3, 2));
-        forms.set(2, 0, 0, 6, 3);
-        check.refused("whole again, too heavy", forms, Check.UNSUPPORTED, () -> forms.hermite(3, 2));
+        Bounds.wholeCells(check, "hermite", (forms, r) -> forms.hermite(r[0], r[1]));
     }
 
     /** Promise 15: "UnsupportedOperationException, WEIGHT." */
     private static void weight(Check check) {
         WeightCheck weight = new WeightCheck(check, "hermite", f -> f.hermite(2, 0), m -> m.hermite(2, 0));
-        weight.everySide();
-        weight.everyPlace();
-        weight.lesserSide();
-        weight.sharedFactors();
-        weight.zeros();
+        weight.ofAnyShape();
         Counted forms = new Counted();
         Check.power(forms, 1, 2, 1, 2000);
         check.refused("to its own", forms, Check.UNSUPPORTED, () -> forms.hermite(1, 1));

@@ -116,10 +116,7 @@ public final class InvertTest {
     private static void weight(Check check) {
         WeightCheck weight = new WeightCheck(check, "invert", f -> f.invert(2, 0) ? 1 : 0,
             m -> m.invert(2, 0) ? 1 : 0);
-        weight.everySide();
-        weight.everyPlace();
-        weight.sharedFactors();
-        weight.zeros();
+        weight.ofSquares();
         Counted forms = new Counted();
         Check.power(forms, 0, 2, 1, 2000);
         check.refused("to its own", forms, Check.UNSUPPORTED, () -> forms.invert(0, 0));

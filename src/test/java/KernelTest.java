@@ -102,11 +102,7 @@ public final class KernelTest {
     /** Promise 11: "UnsupportedOperationException, WEIGHT." */
     private static void weight(Check check) {
         WeightCheck weight = new WeightCheck(check, "kernel", f -> f.kernel(2, 0), m -> m.kernel(2, 0));
-        weight.everySide();
-        weight.everyPlace();
-        weight.lesserSide();
-        weight.sharedFactors();
-        weight.zeros();
+        weight.ofAnyShape();
         weight.rowsMadeWhole();
         Counted forms = new Counted();
         Check.power(forms, 1, 2, 1, 1999);

@@ -208,6 +208,13 @@ final class Model {
     }
 
     private void keep(int to, Ratio[][] m) {
+        if (isTooLong(m)) {
+            throw new UnsupportedOperationException();
+        }
+        registers[to] = m;
+    }
+
+    static boolean isTooLong(Ratio[][] m) {
         BigInteger common = commonOf(m);
         long limbs = limbs(common);
         boolean tooLong = common.bitLength() > 4000 || m[0].length > 16;
@@ -218,10 +225,7 @@ final class Model {
                 limbs += limbs(size);
             }
         }
-        if (tooLong || limbs > 20000) {
-            throw new UnsupportedOperationException();
-        }
-        registers[to] = m;
+        return tooLong || limbs > 20000;
     }
 
     private static long limbs(BigInteger size) {

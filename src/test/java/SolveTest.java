@@ -131,13 +131,14 @@ public final class SolveTest {
         check.holds("2 and 2", forms.solve(4, 0, 0));
     }
 
-    /** Promise 12: "UnsupportedOperationException, WEIGHT of both side by side (which may have more than 16 columns)." */
+    /**
+     * Promise 12: "UnsupportedOperationException, WEIGHT of both side by side (which may have more than 16
+     * columns)."
+     */
     private static void weight(Check check) {
         WeightCheck left = new WeightCheck(check, "solve a X = a", f -> f.solve(2, 0, 0) ? 1 : 0,
             m -> m.solve(2, 0, 0) ? 1 : 0);
-        left.everySide();
-        left.everyPlace();
-        left.sharedFactors();
+        left.ofSquares();
         left.rowsMadeWhole();
         WeightCheck right = new WeightCheck(check, "solve 1 X = b",
             f -> {

@@ -28,8 +28,20 @@ final class WeightCheck {
         this.onModel = onModel;
     }
 
+    void ofAnyShape() {
+        ofSquares();
+        lesserSide();
+    }
+
+    void ofSquares() {
+        everySide();
+        everyPlace();
+        sharedFactors();
+        zeros();
+    }
+
     /** The greatest length that cells may have where k is the lesser side. */
-    static int mostBits(int k) {
+    private static int mostBits(int k) {
         return 2000 / k - POWERS[k - 1];
     }
 
@@ -37,7 +49,7 @@ final class WeightCheck {
      * Terms: "L(k) the least e with 2^e not below k: k (b + L(k))." Cells of the greatest length that keeps
      * this at most 2000, and one bit longer, for every k.
      */
-    void everySide() {
+    private void everySide() {
         for (int k = 1; k <= 16; k++) {
             int b = mostBits(k);
             Ratio[][] m = Model.one(k);
@@ -51,7 +63,7 @@ final class WeightCheck {
     }
 
     /** Terms: "b the greatest length of all cells then," It counts wherever it is, and with any sign. */
-    void everyPlace() {
+    private void everyPlace() {
         for (int i = 0; i < 3; i++) {
             for (int j = 0; j < 3; j++) {
                 Ratio[][] m = Model.one(3);
@@ -64,7 +76,7 @@ final class WeightCheck {
     }
 
     /** Terms: "k the lesser of rows and columns," Rows and columns of 0 do not make it less. */
-    void lesserSide() {
+    private void lesserSide() {
         int[][] shapes = {{3, 2, 2}, {2, 3, 2}, {16, 2, 2}, {2, 16, 2}, {1, 16, 1}, {16, 1, 1}, {5, 4, 4}, {4, 5, 4}};
         for (int[] shape : shapes) {
             int b = mostBits(shape[2]);
@@ -80,7 +92,7 @@ final class WeightCheck {
      * Terms: "WEIGHT of a matrix: let each row be times the least number above 0 that makes it whole," For
      * whole cells that is 1: a factor that they share is not taken out.
      */
-    void sharedFactors() {
+    private void sharedFactors() {
         Ratio[][] m = {{power(998), power(998)}, {power(998), power(998)}};
         isTaken("2^998 all over", m);
         m = new Ratio[][] {{power(999), power(999)}, {power(999), power(999)}};
@@ -88,7 +100,7 @@ final class WeightCheck {
     }
 
     /** Without any cell that is not 0, b is 0. */
-    void zeros() {
+    private void zeros() {
         isTaken("16 by 16 of 0", Model.zero(16, 16));
         isTaken("1 by 1 of 0", Model.zero(1, 1));
     }
@@ -126,7 +138,7 @@ final class WeightCheck {
     void isTaken(String which, Ratio[][] m) {
         Counted forms = new Counted();
         Model model = new Model();
-        put(forms, m);
+        Check.putPowers(forms, 0, m);
         model.registers[0] = m;
         long want = onModel.answer(model);
         check.due(what + ", " + which + ", throws",
@@ -137,46 +149,7 @@ final class WeightCheck {
 
     void isRefused(String which, Ratio[][] m) {
         Counted forms = new Counted();
-        put(forms, m);
+        Check.putPowers(forms, 0, m);
         check.refused(what + ", " + which, forms, Check.UNSUPPORTED, () -> onClass.answer(forms));
-    }
-
-    /** Long cells one by one, as all together would take too many calls. */
-    private static void put(Counted forms, Ratio[][] m) {
-        int[] shape = {m.length, m[0].length};
-        forms.make(0, shape[0], shape[1]);
-        for (int i = 0; i < shape[0]; i++) {
-            for (int j = 0; j < shape[1]; j++) {
-                Ratio cell = m[i][j];
-                if (cell.upper.bitLength() < 64 && cell.lower.bitLength() < 64) {
-                    if (!cell.isZero()) {
-                        forms.set(0, i, j, cell.upper.longValueExact(), cell.lower.longValueExact());
-                    }
-                } else {
-                    putFactors(forms, cell);
-                    Check.place(forms, 3, shape, i, j, 4);
-                    forms.add(0, 0, 3, false);
-                }
-            }
-        }
-    }
-
-    /** Register 4 becomes a power of 2, or one more or less, over a power of 2 or of 3, with any sign. */
-    private static void putFactors(Counted forms, Ratio cell) {
-        BigInteger size = cell.upper.abs();
-        int e = size.add(BigInteger.ONE).bitLength() - 1;
-        Check.power(forms, 4, 2, 1, e);
-        forms.make(5, 1, 1);
-        forms.set(5, 0, 0, size.subtract(BigInteger.TWO.pow(e)).longValueExact(), 1);
-        forms.add(4, 4, 5, false);
-        if (cell.upper.signum() < 0) {
-            forms.make(5, 1, 1);
-            forms.add(4, 5, 4, true);
-        }
-        if (!cell.lower.equals(BigInteger.ONE)) {
-            int factor = cell.lower.testBit(0) ? 3 : 2;
-            Check.power(forms, 5, 1, factor, Check.longestPower(factor, cell.lower.bitLength()));
-            forms.multiply(4, 4, 5);
-        }
     }
 }

@@ -386,7 +386,10 @@ final class Check {
         return e;
     }
 
-    /** An object whose calls have worked on all of 16 rows and columns before, none of whose cells was 0. */
+    /**
+     * An object whose calls have worked on all of 16 rows and columns before, none of whose cells was 0, and
+     * last on a Hermite form with cells above its first pivots.
+     */
     static Counted usedBefore() {
         Counted forms = new Counted();
         forms.unit(1, 1);
@@ -400,6 +403,14 @@ final class Check {
         forms.invert(1, 0);
         forms.solve(2, 0, 1);
         forms.multiply(3, 1, 2);
+        forms.make(0, 16, 16);
+        for (int i = 0; i < 16; i++) {
+            forms.set(0, i, i, 7, 1);
+            for (int j = i + 1; j < 5; j++) {
+                forms.set(0, i, j, 3, 1);
+            }
+        }
+        forms.hermite(1, 0);
         return forms;
     }
 

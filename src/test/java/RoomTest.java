@@ -189,9 +189,10 @@ public final class RoomTest {
 
     /** What the run of longer and longer numbers leaves behind is as due. */
     private static void longNumbersStand(Check check) {
-        ExactForms forms = new ExactForms();
-        longerAndLonger(forms);
         for (int r = 0; r < 8; r++) {
+            // A new one each time, as 512 calls do not reach to read all registers.
+            ExactForms forms = new ExactForms();
+            longerAndLonger(forms);
             check.due("rows", forms.size(r, false), 16);
             check.due("columns", forms.size(r, true), 16);
             for (int i = 0; i < 256; i++) {

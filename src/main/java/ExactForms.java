@@ -159,7 +159,6 @@ public final class ExactForms {
                 draft.at(i, first.columns + j).product(second.at(i, j), desk.rightFactor);
             }
         }
-        reduceDraft();
         keepDraft(to);
     }
 
@@ -414,7 +413,10 @@ public final class ExactForms {
         return lower ? shown.lower : shown.upper;
     }
 
-    /** Leaves in the desk what the cells of first and of second are to be multiplied by. */
+    /**
+     * Leaves in the desk what the cells of first and of second are to be multiplied by. Of cells that
+     * stay as they are, the least common multiple of both COMMONs is COMMON.
+     */
     private void draftCommon(Matrix first, Matrix second, int columns) {
         draft.clear(first.rows, columns);
         desk.meet(first.common, second.common);
